@@ -1156,18 +1156,18 @@ public final class SliceWright {
         /** Strokes are numbered by their kinds, so the kind of the first one left is the one that is due. */
         private int nearestStroke() {
             int nearest = -1;
+            int shortest = 0;
             for (int stroke = 0; stroke < strokes.size() && stroke < isDrawn.length; stroke++) {
                 if (isDrawn[stroke]) {
                     continue;
                 }
-                if (nearest < 0) {
-                    nearest = stroke;
-                }
-                if (strokes.kindOf(stroke) != strokes.kindOf(nearest)) {
+                if (nearest >= 0 && strokes.kindOf(stroke) != strokes.kindOf(nearest)) {
                     break;
                 }
-                if (distanceOf(stroke) < distanceOf(nearest)) {
+                int way = distanceOf(stroke);
+                if (nearest < 0 || way < shortest) {
                     nearest = stroke;
+                    shortest = way;
                 }
             }
             return nearest;

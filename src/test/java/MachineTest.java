@@ -14,6 +14,7 @@ public final class MachineTest {
         shortMoves();
         keptSpeed();
         travelInBothDirections();
+        slowEnds();
         turns();
         coldDraw();
         leastTarget();
@@ -225,6 +226,13 @@ public final class MachineTest {
         speeds(s, "the stroke", 4, 4, 4, 4, 4, 4, 3, 2, 0);
         now(s, "behind the stroke", 'd', 3, 0);
         s = new SliceWright();
+        s.box(0, 3, 1, 1, 2, 1, true);
+        s.plan();
+        warm(s);
+        s.pass(1);
+        speeds(s, "a way of 30 along y", 1, 2, 3, 4, 5, 6, 5, 4);
+        speeds(s, "the stroke of 10 along y", 4, 3, 2, 0);
+        s = new SliceWright();
         s.box(11, 0, 0, 1, 1, 1, true);
         s.set('r', 22);
         s.plan();
@@ -246,6 +254,38 @@ public final class MachineTest {
         speeds(s, "a way of 30 that goes on", 5, 6, 6, 5, 4, 4);
         speeds(s, "a stroke of 10 that ends", 4, 3, 2, 0);
         now(s, "behind all", 'd', 4, 0);
+    }
+
+    /** Failures leave 1 of a length, which no greater speed may end, and the speed 1 is what is kept then. */
+    private static void slowEnds() {
+        SliceWright s = new SliceWright();
+        s.box(0, 0, 0, 2, 1, 1, true);
+        s.box(4, 0, 0, 2, 1, 1, true);
+        s.plan();
+        warm(s);
+        s.pass(4);
+        now(s, "6 of 10", 'r', 1, 3);
+        s.fail();
+        s.mend();
+        s.setTarget(200);
+        speeds(s, "the stroke from 0", 1, 2, 1);
+        speeds(s, "the way from 1", 2, 3, 4, 5, 6, 5, 4, 1);
+        speeds(s, "the stroke from 1", 2, 3, 2, 2, 0);
+        now(s, "behind all", 'd', 4, 0);
+        s = warm(bar(2));
+        s.pass(5);
+        now(s, "8 of 10", 'r', 1, 2);
+        s.setTarget(0);
+        s.pass(1);
+        s.setTarget(200);
+        s.pass(1);
+        now(s, "9 of 10", 'r', 1, 1);
+        s.setTarget(0);
+        s.pass(1);
+        now(s, "it waits for the last one", 'w', 1, 0);
+        s.setTarget(200);
+        speeds(s, "the last one", 0);
+        now(s, "done", 'd', 2, 0);
     }
 
     private static void turns() {
@@ -283,6 +323,14 @@ public final class MachineTest {
         Check.same("the first tick of the stroke", s.pass(1), 0);
         Check.same("it is warm enough at 10 less", s.temperature(), 140);
         now(s, "it prints", 'r', 1, 1);
+        s = bar(3);
+        s.setTarget(151);
+        s.print();
+        s.pass(40);
+        Check.same("it is 11 too cold", s.temperature(), 140);
+        now(s, "11 less is too cold", 'w', 1, 0);
+        s.pass(1);
+        now(s, "3 more are enough", 'r', 1, 1);
         s = new SliceWright();
         s.box(2, 0, 0, 1, 1, 1, true);
         s.plan();
@@ -458,8 +506,9 @@ public final class MachineTest {
         Check.same("cut at once", s.cut(), 'r');
         Check.same("resume with the first command", s.resume(), 0);
         now(s, "resumed", 'r', 0, 0);
-        warm(done());
-        s = done();
+        s = paused();
+        s.goOn();
+        s.pass(200);
         s.print();
         s.cut();
         Check.same("a z of a print before is not kept", s.resume(), 0);
