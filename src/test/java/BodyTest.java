@@ -1,14 +1,11 @@
 /** Promises 1 to 8: a new object, the body, the settings, the kinds of cells, and what hangs. */
 public final class BodyTest {
     private static final Class<IllegalArgumentException> ARGUMENT = IllegalArgumentException.class;
-    private static final Class<IndexOutOfBoundsException> INDEX = IndexOutOfBoundsException.class;
 
     public static void main(String[] args) {
         newObject();
         box();
-        boxRefused();
         set();
-        setRefused();
         pattern();
         thickness();
         pause();
@@ -18,7 +15,6 @@ public final class BodyTest {
         supports();
         supportsBlocked();
         supportsBesideSolid();
-        kindAtRefused();
         hanging();
         Check.end();
     }
@@ -26,18 +22,6 @@ public final class BodyTest {
     private static SliceWright full() {
         SliceWright s = new SliceWright();
         s.box(0, 0, 0, 12, 12, 12, true);
-        return s;
-    }
-
-    private static SliceWright printing() {
-        SliceWright s = new SliceWright();
-        s.box(0, 0, 0, 5, 4, 3, true);
-        s.setThickness(0, 2);
-        s.setPause(0, true);
-        s.plan();
-        s.setTarget(200);
-        s.print();
-        s.pass(7);
         return s;
     }
 
@@ -88,21 +72,6 @@ public final class BodyTest {
         Check.same("all taken", s.box(0, 0, 0, 12, 12, 12, false), 120 + 60 - 1 + 11);
     }
 
-    private static void boxRefused() {
-        int[][] wrong = {
-            {-1, 0, 0, 1, 1, 1}, {0, -1, 0, 1, 1, 1}, {0, 0, -1, 1, 1, 1},
-            {12, 0, 0, 1, 1, 1}, {0, 12, 0, 1, 1, 1}, {0, 0, 12, 1, 1, 1},
-            {0, 0, 0, 0, 1, 1}, {0, 0, 0, 1, 0, 1}, {0, 0, 0, 1, 1, 0},
-            {0, 0, 0, 13, 1, 1}, {11, 0, 0, 2, 1, 1}, {0, 11, 0, 1, 2, 1}, {0, 0, 11, 1, 1, 2},
-            {1, 0, 0, Integer.MAX_VALUE, 1, 1}, {0, 1, 0, 1, Integer.MAX_VALUE, 1}, {0, 0, 1, 1, 1, Integer.MAX_VALUE},
-            {0, 0, 0, Integer.MIN_VALUE, 1, 1}, {Integer.MIN_VALUE, 0, 0, 1, 1, 1}, {Integer.MAX_VALUE, 0, 0, 1, 1, 1},
-        };
-        for (int[] w : wrong) {
-            Check.refusesUnchanged("box(" + w[0] + ", " + w[1] + ", " + w[2] + ", " + w[3] + ", " + w[4] + ", " + w[5]
-                    + ")", ARGUMENT, BodyTest::printing, s -> s.box(w[0], w[1], w[2], w[3], w[4], w[5], true));
-        }
-    }
-
     private static void set() {
         String letters = "wkdsgr";
         int[] first = {1, 1, 3, 0, 0, 4};
@@ -128,24 +97,12 @@ public final class BodyTest {
         }
     }
 
-    private static void setRefused() {
-        for (char letter : new char[] {'W', 'p', 'l', 'x', 't', 0, 'k' + 256, '\uffff'}) {
-            Check.refusesUnchanged("set " + (int) letter, ARGUMENT, BodyTest::printing, s -> s.set(letter, 1));
-        }
-        Check.refusesUnchanged("set w 4", ARGUMENT, BodyTest::printing, s -> s.set('w', 4));
-        Check.refusesUnchanged("set r 23", ARGUMENT, BodyTest::printing, s -> s.set('r', 23));
-    }
-
     private static void pattern() {
         SliceWright s = new SliceWright();
         Check.same("the first pattern", s.setPattern('g'), 'l');
         Check.same("the next pattern", s.setPattern('w'), 'g');
         Check.same("the same pattern", s.setPattern('w'), 'w');
         Check.same("the pattern back", s.setPattern('l'), 'w');
-        for (char letter : new char[] {'L', 'e', 0, 'i', 'l' + 256}) {
-            Check.refusesUnchanged("setPattern " + (int) letter, ARGUMENT, BodyTest::printing,
-                    o -> o.setPattern(letter));
-        }
     }
 
     private static void thickness() {
@@ -154,14 +111,6 @@ public final class BodyTest {
         Check.same("thickness before", s.setThickness(11, 2), 3);
         Check.same("thickness of another layer", s.setThickness(0, 1), 1);
         Check.same("thickness kept", s.setThickness(11, 2), 2);
-        for (int z : new int[] {-1, 12, Integer.MAX_VALUE, Integer.MIN_VALUE}) {
-            Check.refusesUnchanged("setThickness(" + z + ", 1)", INDEX, BodyTest::printing, o -> o.setThickness(z, 1));
-            Check.refusesUnchanged("setThickness(" + z + ", 4)", INDEX, BodyTest::printing, o -> o.setThickness(z, 4));
-        }
-        for (int value : new int[] {0, 4, -1, Integer.MAX_VALUE, Integer.MIN_VALUE}) {
-            Check.refusesUnchanged("setThickness(0, " + value + ")", ARGUMENT, BodyTest::printing,
-                    o -> o.setThickness(0, value));
-        }
     }
 
     private static void pause() {
@@ -171,9 +120,6 @@ public final class BodyTest {
         Check.same("pause of another layer", s.setPause(4, false), false);
         Check.same("pause taken back", s.setPause(3, false), true);
         Check.same("no pause", s.setPause(3, false), false);
-        for (int z : new int[] {-1, 12, Integer.MAX_VALUE, Integer.MIN_VALUE}) {
-            Check.refusesUnchanged("setPause(" + z + ")", INDEX, BodyTest::printing, o -> o.setPause(z, true));
-        }
     }
 
     private static void wallsOfKind() {
@@ -305,14 +251,6 @@ public final class BodyTest {
         kinds(s, "not held over a corner", 5, 5, 5, 's');
     }
 
-    private static void kindAtRefused() {
-        for (int place : new int[] {-1, 12, Integer.MAX_VALUE, Integer.MIN_VALUE}) {
-            Check.refusesUnchanged("kindAt x " + place, INDEX, BodyTest::printing, s -> s.kindAt(place, 0, 0));
-            Check.refusesUnchanged("kindAt y " + place, INDEX, BodyTest::printing, s -> s.kindAt(0, place, 0));
-            Check.refusesUnchanged("kindAt z " + place, INDEX, BodyTest::printing, s -> s.kindAt(0, 0, place));
-        }
-    }
-
     private static void hanging() {
         SliceWright s = new SliceWright();
         s.box(2, 2, 0, 3, 3, 1, true);
@@ -324,8 +262,5 @@ public final class BodyTest {
         Check.same("a whole layer", s.hanging(11), 144);
         s.box(0, 0, 10, 1, 1, 1, true);
         Check.same("held at a corner", s.hanging(11), 141);
-        for (int z : new int[] {-1, 12, Integer.MAX_VALUE, Integer.MIN_VALUE}) {
-            Check.refusesUnchanged("hanging(" + z + ")", INDEX, BodyTest::printing, o -> o.hanging(z));
-        }
     }
 }

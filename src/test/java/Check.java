@@ -16,8 +16,14 @@ final class Check {
 
     private static int wrong = 0;
     private static int right = 0;
+    private static String sentence = "";
 
     private Check() {
+    }
+
+    /** The sentence of the document that the answers from here on are of; a wrong one is told with it. */
+    static void about(String words) {
+        sentence = words;
     }
 
     static void same(String what, Object got, Object want) {
@@ -26,51 +32,44 @@ final class Check {
         } else {
             wrong++;
             System.out.println(what + " answered " + got + ", due is " + want);
+            if (!sentence.isEmpty()) {
+                System.out.println("    by: " + sentence);
+            }
         }
     }
 
     /** The exception is of the very class, so that one of the Java machine itself does not pass for it. */
     static void refuses(String what, Class<? extends RuntimeException> want, Call call) {
-        Object got;
+        same(what, answerOf(call), want);
+    }
+
+    /** A call that is refused changes nothing: its object answers all that follows as one does that was not asked. */
+    static void refusesUnchanged(Situation situation, String what, Class<? extends RuntimeException> want, Use use) {
+        for (Probe probe : Probe.values()) {
+            SliceWright object = situation.made();
+            refuses(situation + ": " + what, want, () -> use.of(object));
+            String due = situation.told(probe);
+            String got = probe.tell(object);
+            int from = firstDifference(got, due);
+            same(situation + ": behind " + what + ", " + probe + " from sign " + from,
+                    got.substring(from), due.substring(from));
+        }
+    }
+
+    private static int firstDifference(String one, String other) {
+        int at = 0;
+        while (at < one.length() && at < other.length() && one.charAt(at) == other.charAt(at)) {
+            at++;
+        }
+        return at;
+    }
+
+    static Object answerOf(Call call) {
         try {
-            got = call.answer();
+            return call.answer();
         } catch (RuntimeException e) {
-            got = e.getClass();
+            return e.getClass();
         }
-        same(what, got, want);
-    }
-
-    /** A call that is refused on a new object changes nothing that other calls tell. */
-    static void refusesUnchanged(String what, Class<? extends RuntimeException> want, Maker maker, Use use) {
-        SliceWright object = maker.made();
-        String before = tell(object);
-        refuses(what, want, () -> use.of(object));
-        same(what + " leaves all as it was", tell(object), before);
-    }
-
-    /** All figures of an object, in some seventy calls. */
-    static String tell(SliceWright object) {
-        StringBuilder text = new StringBuilder();
-        for (int z = 0; z < 12; z++) {
-            text.append(object.strokes(z)).append('/').append(object.edges(z)).append(' ');
-        }
-        for (char setting : "wkdsgr".toCharArray()) {
-            int before = object.set(setting, 1);
-            object.set(setting, before);
-            text.append(setting).append(before).append(' ');
-        }
-        char pattern = object.setPattern('l');
-        object.setPattern(pattern);
-        int thickness = object.setThickness(0, 1);
-        object.setThickness(0, thickness);
-        boolean isPause = object.setPause(0, false);
-        object.setPause(0, isPause);
-        text.append(pattern).append(thickness).append(isPause).append(' ');
-        text.append(object.commands()).append(' ').append(object.travel()).append(' ').append(object.planned());
-        text.append(' ').append(object.state()).append(object.next()).append(' ').append(object.speed());
-        text.append(' ').append(object.temperature()).append(' ').append(object.time());
-        text.append(' ').append(object.laidInAll()).append(' ').append(object.laid(0, 0, 0));
-        return text.toString();
     }
 
     static void end() {

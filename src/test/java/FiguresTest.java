@@ -3,7 +3,6 @@ public final class FiguresTest {
     public static void main(String[] args) {
         emptyShare();
         meanStroke();
-        refused();
         Check.end();
     }
 
@@ -41,23 +40,5 @@ public final class FiguresTest {
         s.box(11, 11, 11, 1, 1, 1, true);
         s.set('s', 0);
         Check.same("one stroke", s.meanStroke(), 1.0);
-    }
-
-    private static void refused() {
-        Class<ArithmeticException> arithmetic = ArithmeticException.class;
-        Check.refusesUnchanged("emptyShare of nothing", arithmetic, SliceWright::new, SliceWright::emptyShare);
-        Check.refusesUnchanged("meanStroke of nothing", arithmetic, SliceWright::new, SliceWright::meanStroke);
-        Check.refusesUnchanged("emptyShare of nothing any more", arithmetic, FiguresTest::taken,
-                SliceWright::emptyShare);
-        Check.refusesUnchanged("meanStroke of nothing any more", arithmetic, FiguresTest::taken,
-                SliceWright::meanStroke);
-    }
-
-    private static SliceWright taken() {
-        SliceWright s = new SliceWright();
-        s.box(0, 0, 0, 5, 5, 5, true);
-        s.plan();
-        s.box(0, 0, 0, 5, 5, 5, false);
-        return s;
     }
 }

@@ -2,14 +2,12 @@
 public final class MachineTest {
     private static final Class<IllegalStateException> STATE = IllegalStateException.class;
     private static final Class<IllegalArgumentException> ARGUMENT = IllegalArgumentException.class;
-    private static final Class<IndexOutOfBoundsException> INDEX = IndexOutOfBoundsException.class;
 
     public static void main(String[] args) {
         heater();
         heaterInItsBand();
-        targetRefused();
+        targetKept();
         begin();
-        printRefused();
         drawing();
         shortMoves();
         keptSpeed();
@@ -19,21 +17,17 @@ public final class MachineTest {
         coldDraw();
         leastTarget();
         coolingInADraw();
-        passRefused();
+        mostTicks();
         pause();
-        goOnRefused();
         failure();
         failureInAMove();
         failureOfTheHeat();
-        failAndMendRefused();
         cutAndResume();
         cutInStates();
         cutTurnsHeaterOff();
         cutBehindTheEnd();
-        resumeRefused();
         laying();
         layingTwice();
-        laidRefused();
         Check.end();
     }
 
@@ -143,13 +137,7 @@ public final class MachineTest {
         Check.same("off within the band", s.temperature(), 27);
     }
 
-    private static void targetRefused() {
-        for (int target : new int[] {-1, 301, Integer.MAX_VALUE, Integer.MIN_VALUE}) {
-            Check.refusesUnchanged("setTarget(" + target + ")", ARGUMENT, () -> warm(bar(5)), s -> s.setTarget(target));
-            Check.refusesUnchanged("setTarget(" + target + ") in f", ARGUMENT, MachineTest::failed,
-                    s -> s.setTarget(target));
-        }
-        Check.refusesUnchanged("setTarget(200) in f", STATE, MachineTest::failed, s -> s.setTarget(200));
+    private static void targetKept() {
         SliceWright s = waiting();
         Check.same("target in w", s.setTarget(210), 0);
         Check.refuses("setTarget(301)", ARGUMENT, () -> s.setTarget(301));
@@ -176,14 +164,6 @@ public final class MachineTest {
         Check.same("plan when done", s.plan(), 2);
         now(s, "plan when done", 'i', 0, 0);
         Check.same("what was laid stays behind a plan", s.laidInAll(), 20L);
-    }
-
-    private static void printRefused() {
-        Check.refusesUnchanged("print without commands", STATE, SliceWright::new, SliceWright::print);
-        Check.refusesUnchanged("print in r", STATE, () -> warm(bar(5)), SliceWright::print);
-        Check.refusesUnchanged("print in w", STATE, MachineTest::waiting, SliceWright::print);
-        Check.refusesUnchanged("print in p", STATE, MachineTest::paused, SliceWright::print);
-        Check.refusesUnchanged("print in f", STATE, MachineTest::failed, SliceWright::print);
     }
 
     private static void drawing() {
@@ -371,10 +351,7 @@ public final class MachineTest {
         Check.same("all is laid", s.laidInAll(), 120L);
     }
 
-    private static void passRefused() {
-        for (int ticks : new int[] {0, -1, 201, Integer.MAX_VALUE, Integer.MIN_VALUE}) {
-            Check.refusesUnchanged("pass(" + ticks + ")", ARGUMENT, () -> warm(bar(5)), s -> s.pass(ticks));
-        }
+    private static void mostTicks() {
         SliceWright s = warm(bar(5));
         long before = s.time();
         Check.same("pass(200)", s.pass(200), 2);
@@ -396,19 +373,6 @@ public final class MachineTest {
         Check.same("mended", s.mend(), 'p');
         now(s, "paused as before", 'p', 4, 0);
         Check.same("it goes on when mended", s.goOn(), 5);
-    }
-
-    private static void goOnRefused() {
-        Check.refusesUnchanged("goOn in i", STATE, () -> bar(3), SliceWright::goOn);
-        Check.refusesUnchanged("goOn in r", STATE, () -> warm(bar(3)), SliceWright::goOn);
-        Check.refusesUnchanged("goOn in w", STATE, MachineTest::waiting, SliceWright::goOn);
-        Check.refusesUnchanged("goOn in f", STATE, MachineTest::failed, SliceWright::goOn);
-        Check.refusesUnchanged("goOn in d", STATE, MachineTest::done, SliceWright::goOn);
-        Check.refusesUnchanged("goOn in f behind p", STATE, () -> {
-            SliceWright s = paused();
-            s.fail();
-            return s;
-        }, SliceWright::goOn);
     }
 
     private static void failure() {
@@ -470,20 +434,6 @@ public final class MachineTest {
         Check.same("the target is 0", s.setTarget(50), 0);
         s.pass(1);
         Check.same("the heater is off", s.temperature(), 49);
-    }
-
-    private static void failAndMendRefused() {
-        Check.refusesUnchanged("fail in f", STATE, MachineTest::failed, SliceWright::fail);
-        Check.refusesUnchanged("mend in i", STATE, () -> bar(3), SliceWright::mend);
-        Check.refusesUnchanged("mend in r", STATE, () -> warm(bar(3)), SliceWright::mend);
-        Check.refusesUnchanged("mend in w", STATE, MachineTest::waiting, SliceWright::mend);
-        Check.refusesUnchanged("mend in p", STATE, MachineTest::paused, SliceWright::mend);
-        Check.refusesUnchanged("mend in d", STATE, MachineTest::done, SliceWright::mend);
-        Check.refusesUnchanged("mend behind a cut", STATE, () -> {
-            SliceWright s = failed();
-            s.cut();
-            return s;
-        }, SliceWright::mend);
     }
 
     private static void cutAndResume() {
@@ -570,44 +520,6 @@ public final class MachineTest {
         s.pass(200);
     }
 
-    private static void resumeRefused() {
-        Check.refusesUnchanged("resume of nothing", STATE, () -> bar(3), SliceWright::resume);
-        Check.refusesUnchanged("resume in r", STATE, () -> {
-            SliceWright s = waiting();
-            s.cut();
-            s.resume();
-            return s;
-        }, SliceWright::resume);
-        Check.refusesUnchanged("resume in f", STATE, () -> {
-            SliceWright s = waiting();
-            s.cut();
-            s.fail();
-            return s;
-        }, SliceWright::resume);
-        Check.refusesUnchanged("resume behind a plan", STATE, () -> {
-            SliceWright s = waiting();
-            s.cut();
-            s.plan();
-            return s;
-        }, SliceWright::resume);
-        Check.refusesUnchanged("resume behind a print", STATE, () -> {
-            SliceWright s = waiting();
-            s.cut();
-            s.print();
-            s.fail();
-            s.mend();
-            return s;
-        }, SliceWright::resume);
-        Check.refusesUnchanged("resume behind a print that is done", STATE, () -> {
-            SliceWright s = waiting();
-            s.cut();
-            s.print();
-            warmUp(s);
-            s.cut();
-            return s;
-        }, SliceWright::resume);
-    }
-
     private static void laying() {
         SliceWright s = new SliceWright();
         s.box(0, 0, 0, 3, 1, 1, true);
@@ -655,13 +567,5 @@ public final class MachineTest {
         Check.same("laid once", s.laid(2, 1, 0), 10);
         Check.same("the sum", s.laidInAll(), 90L);
         Check.same("planned", s.planned(), 60L);
-    }
-
-    private static void laidRefused() {
-        for (int place : new int[] {-1, 12, Integer.MAX_VALUE, Integer.MIN_VALUE}) {
-            Check.refusesUnchanged("laid x " + place, INDEX, MachineTest::done, s -> s.laid(place, 0, 0));
-            Check.refusesUnchanged("laid y " + place, INDEX, MachineTest::done, s -> s.laid(0, place, 0));
-            Check.refusesUnchanged("laid z " + place, INDEX, MachineTest::done, s -> s.laid(0, 0, place));
-        }
     }
 }

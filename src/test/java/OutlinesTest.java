@@ -9,7 +9,6 @@ public final class OutlinesTest {
         nested();
         board();
         otherLayers();
-        refused();
         Check.end();
     }
 
@@ -103,22 +102,5 @@ public final class OutlinesTest {
         outlines(s, "the last layer", 11, 1, 0, 12);
         outlines(s, "the first layer", 0, 1, 0, 12);
         outlines(s, "between", 1, 0, 0, 0);
-    }
-
-    private static SliceWright ring() {
-        SliceWright s = new SliceWright();
-        s.box(1, 1, 0, 5, 5, 2, true);
-        s.box(2, 2, 0, 2, 2, 2, false);
-        return s;
-    }
-
-    private static void refused() {
-        Class<IndexOutOfBoundsException> index = IndexOutOfBoundsException.class;
-        for (int z : new int[] {-1, 12, Integer.MAX_VALUE, Integer.MIN_VALUE}) {
-            Check.refusesUnchanged("outer(" + z + ")", index, OutlinesTest::ring, s -> s.outer(z));
-            Check.refusesUnchanged("inner(" + z + ")", index, OutlinesTest::ring, s -> s.inner(z));
-            Check.refusesUnchanged("outlinesByEdges(" + z + ")", index, OutlinesTest::ring, s -> s.outlinesByEdges(z));
-            Check.refusesUnchanged("edges(" + z + ")", index, OutlinesTest::ring, s -> s.edges(z));
-        }
     }
 }

@@ -9,10 +9,6 @@ public final class RandomRunsTest {
     private static int wrong = 0;
     private static int calls = 0;
 
-    private interface Call {
-        Object answer();
-    }
-
     private final Random random;
     private final int run;
     private final SliceWright object = new SliceWright();
@@ -207,26 +203,18 @@ public final class RandomRunsTest {
         check("commands", object::commands, model::commands);
     }
 
-    private void check(String what, Call call, Call due) {
+    private void check(String what, Check.Call call, Check.Call due) {
         if (isWrong) {
             return;
         }
-        Object got = answerOf(call);
-        Object want = answerOf(due);
+        Object got = Check.answerOf(call);
+        Object want = Check.answerOf(due);
         calls++;
         callsOfRun++;
         log.append(what).append(" = ").append(got).append('\n');
         if (!Objects.equals(got, want)) {
             isWrong = true;
             System.out.println("run " + run + ":\n" + log + "due is " + want);
-        }
-    }
-
-    private static Object answerOf(Call call) {
-        try {
-            return call.answer();
-        } catch (RuntimeException e) {
-            return e.getClass();
         }
     }
 }
