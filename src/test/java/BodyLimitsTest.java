@@ -161,7 +161,8 @@ public final class BodyLimitsTest {
     }
 
     private static void boxToTheLastPlace() {
-        Check.about("Throws IllegalArgumentException if .. the box reaches beyond the places (up to the last it does not)");
+        Check.about("Throws IllegalArgumentException if .. the box reaches beyond the places (up to the last "
+                + "it does not)");
         for (int place = 0; place < 12; place++) {
             int rest = 12 - place;
             Check.same("x " + place, new SliceWright().box(place, 3, 5, rest, 1, 1, true), rest);
@@ -192,7 +193,8 @@ public final class BodyLimitsTest {
     // ---- settings
 
     private static void leastAndGreatestValues() {
-        Check.about("The walls, 1 to 3 ..; the skins, 0 to 3 ..; the spread, 1 to 6 ..; the gap, 0 to 2 ..; the reach, 0 to 22");
+        Check.about("The walls, 1 to 3 ..; the skins, 0 to 3 ..; the spread, 1 to 6 ..; the gap, 0 to 2 ..; "
+                + "the reach, 0 to 22");
         String letters = "wkdsgr";
         int[] least = {1, 0, 1, 0, 0, 0};
         int[] most = {3, 3, 6, 1, 2, 22};
@@ -393,7 +395,8 @@ public final class BodyLimitsTest {
     }
 
     private static void skinsByLayers() {
-        Check.about("Otherwise it is 'b' if one of the cells right below it, as many layers down as the skins tell, is not solid; otherwise 't' if one of those right above it, as many up, is not.");
+        Check.about("Otherwise it is 'b' if one of the cells right below it, as many layers down as the skins "
+                + "tell, is not solid; otherwise 't' if one of those right above it, as many up, is not.");
         String[] due = {"iiiiii.iiiii", "biiiit.biiit", "bbiitt.bbitt", "bbbttt.bbbtt"};
         SliceWright s = full();
         s.set('d', 1);
@@ -421,7 +424,8 @@ public final class BodyLimitsTest {
     // ---- patterns
 
     private static void linesBySpread() {
-        Check.about("'l' fills those whose y can be divided by d in layers that can be halved, and whose x can be divided by d in the others");
+        Check.about("'l' fills those whose y can be divided by d in layers that can be halved, and whose x "
+                + "can be divided by d in the others");
         String[] due = {"wiiiiiiiiiiw", "weieieieieiw", "weeieeieeiew", "weeeieeeieew", "weeeeieeeeiw", "weeeeeieeeew"};
         for (int spread = 1; spread <= 6; spread++) {
             SliceWright s = filled('l', spread);
@@ -454,7 +458,8 @@ public final class BodyLimitsTest {
 
     /** The spread 3, and each of the rests from 0 to 5. */
     private static void wavesByRest() {
-        Check.about("'w' those for which x plus the distance of d from the rest of y + z divided by 2 * d can be divided by d");
+        Check.about("'w' those for which x plus the distance of d from the rest of y + z divided by 2 * d can "
+                + "be divided by d");
         SliceWright s = filled('w', 3);
         String[] due = {"weeieeieeiew", "wieeieeieeiw", "weieeieeieew", "weeieeieeiew", "weieeieeieew", "wieeieeieeiw"};
         for (int z : new int[] {0, 4, 7, 11}) {
@@ -465,7 +470,8 @@ public final class BodyLimitsTest {
     }
 
     private static void wavesBySpread() {
-        Check.about("'w' those for which x plus the distance of d from the rest of y + z divided by 2 * d can be divided by d");
+        Check.about("'w' those for which x plus the distance of d from the rest of y + z divided by 2 * d can "
+                + "be divided by d");
         SliceWright s = filled('w', 6);
         Check.same("the least rest", alongX(s, 10, 2), "weeeeeieeeew");
         Check.same("the rest 1", alongX(s, 1, 0), "wieeeeeieeew");
@@ -664,7 +670,8 @@ public final class BodyLimitsTest {
         Check.about("All other cells are '.'.");
         SliceWright s = floating(6, 0);
         for (int z = 0; z < 12; z++) {
-            Check.same("layer " + z, alongX(s, 5, z), z < 6 ? ".....s......" : z == 6 ? ".....w......" : "............");
+            String due = z < 6 ? ".....s......" : z == 6 ? ".....w......" : "............";
+            Check.same("layer " + z, alongX(s, 5, z), due);
             Check.same("layer " + z + " beside", alongX(s, 4, z), "............");
             Check.same("layer " + z + " beside", alongX(s, 6, z), "............");
         }

@@ -26,13 +26,6 @@ public final class HeatLimitsTest {
         Check.end();
     }
 
-    private static SliceWright bar(int cells) {
-        SliceWright s = new SliceWright();
-        s.box(0, 0, 0, cells, 1, 1, true);
-        s.plan();
-        return s;
-    }
-
     /** Heats from 20 to 50, where the heater is on. */
     private static SliceWright at50() {
         SliceWright s = new SliceWright();
@@ -204,14 +197,14 @@ public final class HeatLimitsTest {
 
     private static void aheadOfWhatIsDone() {
         Check.about("In each tick .. ahead of what is done: the heater is turned on ..; then the temperature rises");
-        SliceWright s = bar(3);
+        SliceWright s = Prints.bar(3);
         s.setTarget(150);
         s.pass(39);
         Check.same("13 less than the target", s.temperature(), 137);
         s.print();
         Check.same("the 'z'", s.pass(1), 1);
         Check.same("10 less than the target", s.temperature(), 140);
-        s = bar(3);
+        s = Prints.bar(3);
         s.setTarget(150);
         s.print();
         s.pass(39);
@@ -225,7 +218,7 @@ public final class HeatLimitsTest {
         Check.about("A tick of 'd' is only done if the target is at least 150");
         int[] targets = {0, 1, 149, 150, 151};
         for (int target : targets) {
-            SliceWright s = bar(3);
+            SliceWright s = Prints.bar(3);
             s.setTarget(150);
             s.pass(50);
             s.print();
@@ -240,7 +233,7 @@ public final class HeatLimitsTest {
     private static void leastHeatOfADraw() {
         Check.about("and the temperature is not less than the target less 10");
         for (int target = 150; target <= 170; target++) {
-            SliceWright s = bar(3);
+            SliceWright s = Prints.bar(3);
             s.setTarget(target);
             s.print();
             s.pass(45);
@@ -251,7 +244,7 @@ public final class HeatLimitsTest {
 
     private static void leastHeatOfTheGreatestTarget() {
         Check.about("and the temperature is not less than the target less 10");
-        SliceWright s = bar(3);
+        SliceWright s = Prints.bar(3);
         s.setTarget(300);
         s.print();
         s.pass(89);
@@ -264,7 +257,7 @@ public final class HeatLimitsTest {
 
     private static void hotterThanTheTarget() {
         Check.about("and the temperature is not less than the target less 10 (it may be far greater)");
-        SliceWright s = bar(3);
+        SliceWright s = Prints.bar(3);
         s.setTarget(300);
         s.pass(94);
         s.print();
@@ -296,7 +289,7 @@ public final class HeatLimitsTest {
 
     private static void waitsAndGoesOn() {
         Check.about("otherwise the machine waits in this tick; 'w' it waited in the last tick for the heat");
-        SliceWright s = bar(3);
+        SliceWright s = Prints.bar(3);
         s.print();
         Check.same("the 'z'", s.pass(1), 1);
         Check.same("it has not waited so far", s.state(), 'r');
@@ -319,7 +312,7 @@ public final class HeatLimitsTest {
 
     private static void waitsInOneCell() {
         Check.about("A tick of 'd' is only done if .. (one of the length 0 too)");
-        SliceWright s = bar(1);
+        SliceWright s = Prints.bar(1);
         s.print();
         Check.same("the 'z' alone", s.pass(200), 1);
         Check.same("it waits", s.state(), 'w');

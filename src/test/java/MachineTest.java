@@ -31,64 +31,34 @@ public final class MachineTest {
         Check.end();
     }
 
-    /** One stroke of the cells 0 to some x at y = 0, planned. */
-    private static SliceWright bar(int cells) {
-        SliceWright s = new SliceWright();
-        s.box(0, 0, 0, cells, 1, 1, true);
-        s.plan();
-        return s;
-    }
-
-    /** The same, when the machine is warm and prints. */
-    private static SliceWright warm(SliceWright s) {
-        s.setTarget(200);
-        s.pass(100);
-        s.print();
-        return s;
-    }
-
     private static SliceWright paused() {
         SliceWright s = new SliceWright();
         s.box(0, 0, 0, 3, 1, 2, true);
         s.setPause(1, true);
         s.plan();
-        warm(s);
+        Prints.warm(s);
         s.pass(30);
         return s;
     }
 
     private static SliceWright failed() {
-        SliceWright s = warm(bar(5));
+        SliceWright s = Prints.warm(Prints.bar(5));
         s.pass(3);
         s.fail();
         return s;
     }
 
     private static SliceWright waiting() {
-        SliceWright s = bar(5);
+        SliceWright s = Prints.bar(5);
         s.print();
         s.pass(2);
         return s;
     }
 
     private static SliceWright done() {
-        SliceWright s = warm(bar(2));
+        SliceWright s = Prints.warm(Prints.bar(2));
         s.pass(100);
         return s;
-    }
-
-    private static void now(SliceWright s, String what, char state, int next, int speed) {
-        Check.same(what + ": state", s.state(), state);
-        Check.same(what + ": next", s.next(), next);
-        Check.same(what + ": speed", s.speed(), speed);
-    }
-
-    /** The speeds of ticks that go on in one command, which only the last of them ends. */
-    private static void speeds(SliceWright s, String what, int... speeds) {
-        for (int tick = 0; tick < speeds.length; tick++) {
-            Check.same(what + ": over in tick " + tick, s.pass(1), tick == speeds.length - 1 ? 1 : 0);
-            Check.same(what + ": speed in tick " + tick, s.speed(), speeds[tick]);
-        }
     }
 
     private static void heater() {
@@ -145,29 +115,29 @@ public final class MachineTest {
     }
 
     private static void begin() {
-        SliceWright s = bar(5);
+        SliceWright s = Prints.bar(5);
         Check.same("print", s.print(), 2);
-        now(s, "print", 'r', 0, 0);
+        Prints.now(s, "print", 'r', 0, 0);
         Check.same("the first tick", s.pass(1), 1);
-        now(s, "a z takes one tick", 'r', 1, 0);
+        Prints.now(s, "a z takes one tick", 'r', 1, 0);
         s = done();
-        now(s, "done", 'd', 2, 0);
+        Prints.now(s, "done", 'd', 2, 0);
         Check.same("laid", s.laidInAll(), 20L);
         Check.same("nothing more is done", s.pass(10), 0);
         Check.same("print again", s.print(), 2);
-        now(s, "print again", 'r', 0, 0);
+        Prints.now(s, "print again", 'r', 0, 0);
         Check.same("nothing is laid", s.laidInAll(), 0L);
         Check.same("nothing is laid in a cell", s.laid(0, 0, 0), 0);
         s.pass(100);
         Check.same("laid again", s.laidInAll(), 20L);
-        now(s, "done again", 'd', 2, 0);
+        Prints.now(s, "done again", 'd', 2, 0);
         Check.same("plan when done", s.plan(), 2);
-        now(s, "plan when done", 'i', 0, 0);
+        Prints.now(s, "plan when done", 'i', 0, 0);
         Check.same("what was laid stays behind a plan", s.laidInAll(), 20L);
     }
 
     private static void drawing() {
-        SliceWright s = warm(bar(12));
+        SliceWright s = Prints.warm(Prints.bar(12));
         s.pass(1);
         int[] due = new int[31];
         java.util.Arrays.fill(due, 4);
@@ -175,8 +145,8 @@ public final class MachineTest {
         int[] last = {3, 2, 2, 0};
         System.arraycopy(first, 0, due, 0, 3);
         System.arraycopy(last, 0, due, 27, 4);
-        speeds(s, "a stroke of 12 cells", due);
-        now(s, "a stroke of 12 cells", 'd', 2, 0);
+        Prints.speeds(s, "a stroke of 12 cells", due);
+        Prints.now(s, "a stroke of 12 cells", 'd', 2, 0);
         Check.same("ticks", s.time(), 132L);
     }
 
@@ -184,14 +154,14 @@ public final class MachineTest {
         SliceWright s = new SliceWright();
         s.box(1, 0, 0, 1, 1, 1, true);
         s.plan();
-        warm(s);
+        Prints.warm(s);
         s.pass(1);
-        speeds(s, "a way of 10", 1, 2, 3, 2, 1, 0);
-        speeds(s, "a stroke of one cell", 0);
-        now(s, "a stroke of one cell", 'd', 3, 0);
-        s = warm(bar(3));
+        Prints.speeds(s, "a way of 10", 1, 2, 3, 2, 1, 0);
+        Prints.speeds(s, "a stroke of one cell", 0);
+        Prints.now(s, "a stroke of one cell", 'd', 3, 0);
+        s = Prints.warm(Prints.bar(3));
         s.pass(1);
-        speeds(s, "a stroke of 20", 1, 2, 3, 4, 4, 3, 2, 0);
+        Prints.speeds(s, "a stroke of 20", 1, 2, 3, 4, 4, 3, 2, 0);
     }
 
     /** The way goes on in the direction of the stroke, so its last speed is that of the stroke. */
@@ -199,26 +169,26 @@ public final class MachineTest {
         SliceWright s = new SliceWright();
         s.box(3, 0, 0, 4, 1, 1, true);
         s.plan();
-        warm(s);
+        Prints.warm(s);
         s.pass(1);
-        speeds(s, "a way of 30", 1, 2, 3, 4, 5, 6, 5, 4);
-        now(s, "behind the way", 'r', 2, 4);
-        speeds(s, "the stroke", 4, 4, 4, 4, 4, 4, 3, 2, 0);
-        now(s, "behind the stroke", 'd', 3, 0);
+        Prints.speeds(s, "a way of 30", 1, 2, 3, 4, 5, 6, 5, 4);
+        Prints.now(s, "behind the way", 'r', 2, 4);
+        Prints.speeds(s, "the stroke", 4, 4, 4, 4, 4, 4, 3, 2, 0);
+        Prints.now(s, "behind the stroke", 'd', 3, 0);
         s = new SliceWright();
         s.box(0, 3, 1, 1, 2, 1, true);
         s.plan();
-        warm(s);
+        Prints.warm(s);
         s.pass(1);
-        speeds(s, "a way of 30 along y", 1, 2, 3, 4, 5, 6, 5, 4);
-        speeds(s, "the stroke of 10 along y", 4, 3, 2, 0);
+        Prints.speeds(s, "a way of 30 along y", 1, 2, 3, 4, 5, 6, 5, 4);
+        Prints.speeds(s, "the stroke of 10 along y", 4, 3, 2, 0);
         s = new SliceWright();
         s.box(11, 0, 0, 1, 1, 1, true);
         s.set('r', 22);
         s.plan();
-        warm(s);
+        Prints.warm(s);
         s.pass(1);
-        speeds(s, "a way of 110 to one cell", 1, 2, 3, 4, 5, 6, 7, 8, 8, 8, 8, 8, 8, 7, 6, 6, 5, 4, 3, 2, 0);
+        Prints.speeds(s, "a way of 110 to one cell", 1, 2, 3, 4, 5, 6, 7, 8, 8, 8, 8, 8, 8, 7, 6, 6, 5, 4, 3, 2, 0);
     }
 
     /** A stroke ends at the place from which the way goes on in its direction. */
@@ -227,13 +197,13 @@ public final class MachineTest {
         s.box(0, 0, 0, 2, 1, 1, true);
         s.box(4, 0, 0, 2, 1, 1, true);
         s.plan();
-        warm(s);
+        Prints.warm(s);
         s.pass(1);
-        speeds(s, "a stroke of 10 that goes on", 1, 2, 3, 4);
-        now(s, "behind the stroke", 'r', 2, 4);
-        speeds(s, "a way of 30 that goes on", 5, 6, 6, 5, 4, 4);
-        speeds(s, "a stroke of 10 that ends", 4, 3, 2, 0);
-        now(s, "behind all", 'd', 4, 0);
+        Prints.speeds(s, "a stroke of 10 that goes on", 1, 2, 3, 4);
+        Prints.now(s, "behind the stroke", 'r', 2, 4);
+        Prints.speeds(s, "a way of 30 that goes on", 5, 6, 6, 5, 4, 4);
+        Prints.speeds(s, "a stroke of 10 that ends", 4, 3, 2, 0);
+        Prints.now(s, "behind all", 'd', 4, 0);
     }
 
     /** Failures leave 1 of a length, which no greater speed may end, and the speed 1 is what is kept then. */
@@ -242,30 +212,30 @@ public final class MachineTest {
         s.box(0, 0, 0, 2, 1, 1, true);
         s.box(4, 0, 0, 2, 1, 1, true);
         s.plan();
-        warm(s);
+        Prints.warm(s);
         s.pass(4);
-        now(s, "6 of 10", 'r', 1, 3);
+        Prints.now(s, "6 of 10", 'r', 1, 3);
         s.fail();
         s.mend();
         s.setTarget(200);
-        speeds(s, "the stroke from 0", 1, 2, 1);
-        speeds(s, "the way from 1", 2, 3, 4, 5, 6, 5, 4, 1);
-        speeds(s, "the stroke from 1", 2, 3, 2, 2, 0);
-        now(s, "behind all", 'd', 4, 0);
-        s = warm(bar(2));
+        Prints.speeds(s, "the stroke from 0", 1, 2, 1);
+        Prints.speeds(s, "the way from 1", 2, 3, 4, 5, 6, 5, 4, 1);
+        Prints.speeds(s, "the stroke from 1", 2, 3, 2, 2, 0);
+        Prints.now(s, "behind all", 'd', 4, 0);
+        s = Prints.warm(Prints.bar(2));
         s.pass(5);
-        now(s, "8 of 10", 'r', 1, 2);
+        Prints.now(s, "8 of 10", 'r', 1, 2);
         s.setTarget(0);
         s.pass(1);
         s.setTarget(200);
         s.pass(1);
-        now(s, "9 of 10", 'r', 1, 1);
+        Prints.now(s, "9 of 10", 'r', 1, 1);
         s.setTarget(0);
         s.pass(1);
-        now(s, "it waits for the last one", 'w', 1, 0);
+        Prints.now(s, "it waits for the last one", 'w', 1, 0);
         s.setTarget(200);
-        speeds(s, "the last one", 0);
-        now(s, "done", 'd', 2, 0);
+        Prints.speeds(s, "the last one", 0);
+        Prints.now(s, "done", 'd', 2, 0);
     }
 
     private static void turns() {
@@ -273,86 +243,86 @@ public final class MachineTest {
         s.box(0, 0, 0, 2, 1, 1, true);
         s.box(2, 1, 0, 2, 1, 1, true);
         s.plan();
-        warm(s);
+        Prints.warm(s);
         s.pass(1);
-        speeds(s, "a stroke ahead of a slanting way", 1, 2, 3, 2, 1, 0);
-        speeds(s, "a slanting way ahead of a stroke", 1, 2, 3, 2, 1, 0);
+        Prints.speeds(s, "a stroke ahead of a slanting way", 1, 2, 3, 2, 1, 0);
+        Prints.speeds(s, "a slanting way ahead of a stroke", 1, 2, 3, 2, 1, 0);
         s = new SliceWright();
         s.box(0, 0, 0, 2, 1, 1, true);
         s.box(5, 0, 0, 2, 1, 1, true);
         s.set('r', 3);
         s.plan();
-        warm(s);
+        Prints.warm(s);
         s.pass(1);
-        speeds(s, "a stroke ahead of an 'r'", 1, 2, 3, 2, 1, 0);
-        speeds(s, "an 'r'", 0);
+        Prints.speeds(s, "a stroke ahead of an 'r'", 1, 2, 3, 2, 1, 0);
+        Prints.speeds(s, "an 'r'", 0);
         s.pass(10);
         Check.same("a way ahead of a 'u' ends slowly", s.next(), 3);
         s.pass(2);
-        now(s, "a way of 40 ahead of a 'u'", 'r', 4, 0);
-        speeds(s, "a 'u'", 0);
+        Prints.now(s, "a way of 40 ahead of a 'u'", 'r', 4, 0);
+        Prints.speeds(s, "a 'u'", 0);
     }
 
     private static void coldDraw() {
-        SliceWright s = bar(3);
+        SliceWright s = Prints.bar(3);
         s.setTarget(150);
         s.print();
         Check.same("it waits", s.pass(39), 1);
-        now(s, "it waits", 'w', 1, 0);
+        Prints.now(s, "it waits", 'w', 1, 0);
         Check.same("it is too cold", s.temperature(), 137);
         Check.same("the first tick of the stroke", s.pass(1), 0);
         Check.same("it is warm enough at 10 less", s.temperature(), 140);
-        now(s, "it prints", 'r', 1, 1);
-        s = bar(3);
+        Prints.now(s, "it prints", 'r', 1, 1);
+        s = Prints.bar(3);
         s.setTarget(151);
         s.print();
         s.pass(40);
         Check.same("it is 11 too cold", s.temperature(), 140);
-        now(s, "11 less is too cold", 'w', 1, 0);
+        Prints.now(s, "11 less is too cold", 'w', 1, 0);
         s.pass(1);
-        now(s, "3 more are enough", 'r', 1, 1);
+        Prints.now(s, "3 more are enough", 'r', 1, 1);
         s = new SliceWright();
         s.box(2, 0, 0, 1, 1, 1, true);
         s.plan();
         s.print();
         Check.same("a way needs no heat", s.pass(20), 2);
-        now(s, "one cell waits too", 'w', 2, 0);
+        Prints.now(s, "one cell waits too", 'w', 2, 0);
     }
 
     private static void leastTarget() {
-        SliceWright s = bar(3);
+        SliceWright s = Prints.bar(3);
         s.setTarget(149);
         s.print();
         s.pass(100);
-        now(s, "the target is too low", 'w', 1, 0);
+        Prints.now(s, "the target is too low", 'w', 1, 0);
         s.setTarget(150);
         s.pass(1);
-        now(s, "the target is high enough", 'r', 1, 1);
+        Prints.now(s, "the target is high enough", 'r', 1, 1);
         s.setTarget(200);
         s.pass(1);
-        now(s, "the target is far above", 'w', 1, 0);
+        Prints.now(s, "the target is far above", 'w', 1, 0);
         Check.same("time goes on", s.time(), 102L);
     }
 
     private static void coolingInADraw() {
-        SliceWright s = warm(bar(12));
+        SliceWright s = Prints.warm(Prints.bar(12));
         s.pass(6);
-        now(s, "under way", 'r', 1, 4);
+        Prints.now(s, "under way", 'r', 1, 4);
         s.setTarget(0);
         s.pass(1);
-        now(s, "no target", 'w', 1, 0);
+        Prints.now(s, "no target", 'w', 1, 0);
         s.setTarget(200);
         s.pass(1);
-        now(s, "it goes on from 0", 'r', 1, 1);
+        Prints.now(s, "it goes on from 0", 'r', 1, 1);
         s.pass(1);
-        now(s, "it goes on", 'r', 1, 2);
+        Prints.now(s, "it goes on", 'r', 1, 2);
         s.pass(200);
-        now(s, "it ends", 'd', 2, 0);
+        Prints.now(s, "it ends", 'd', 2, 0);
         Check.same("all is laid", s.laidInAll(), 120L);
     }
 
     private static void mostTicks() {
-        SliceWright s = warm(bar(5));
+        SliceWright s = Prints.warm(Prints.bar(5));
         long before = s.time();
         Check.same("pass(200)", s.pass(200), 2);
         Check.same("the time of 200 ticks", s.time(), before + 200L);
@@ -361,22 +331,22 @@ public final class MachineTest {
 
     private static void pause() {
         SliceWright s = paused();
-        now(s, "paused", 'p', 4, 0);
+        Prints.now(s, "paused", 'p', 4, 0);
         Check.same("nothing is done", s.pass(50), 0);
-        now(s, "still paused", 'p', 4, 0);
+        Prints.now(s, "still paused", 'p', 4, 0);
         Check.same("the commands that are left", s.goOn(), 5);
-        now(s, "it goes on", 'r', 4, 0);
+        Prints.now(s, "it goes on", 'r', 4, 0);
         s.pass(200);
-        now(s, "it ends", 'd', 9, 0);
+        Prints.now(s, "it ends", 'd', 9, 0);
         s = paused();
         s.fail();
         Check.same("mended", s.mend(), 'p');
-        now(s, "paused as before", 'p', 4, 0);
+        Prints.now(s, "paused as before", 'p', 4, 0);
         Check.same("it goes on when mended", s.goOn(), 5);
     }
 
     private static void failure() {
-        SliceWright s = bar(3);
+        SliceWright s = Prints.bar(3);
         Check.same("fail in i", s.fail(), 'i');
         Check.same("mend to i", s.mend(), 'i');
         s = waiting();
@@ -388,26 +358,26 @@ public final class MachineTest {
         s = done();
         Check.same("fail in d", s.fail(), 'd');
         Check.same("mend to d", s.mend(), 'd');
-        now(s, "done as before", 'd', 2, 0);
+        Prints.now(s, "done as before", 'd', 2, 0);
         s = paused();
         Check.same("fail in p", s.fail(), 'p');
         s.cut();
-        now(s, "cut when failed", 'i', 4, 0);
+        Prints.now(s, "cut when failed", 'i', 4, 0);
         Check.same("resume behind a failure", s.resume(), 2);
     }
 
     private static void failureInAMove() {
-        SliceWright s = warm(bar(12));
+        SliceWright s = Prints.warm(Prints.bar(12));
         s.pass(6);
         Check.same("fail in r", s.fail(), 'r');
-        now(s, "failed", 'f', 1, 0);
+        Prints.now(s, "failed", 'f', 1, 0);
         Check.same("nothing is done", s.pass(2), 0);
-        now(s, "still failed", 'f', 1, 0);
+        Prints.now(s, "still failed", 'f', 1, 0);
         Check.same("mend", s.mend(), 'r');
-        now(s, "mended", 'r', 1, 0);
+        Prints.now(s, "mended", 'r', 1, 0);
         Check.same("the target is 0", s.setTarget(200), 0);
         s.pass(1);
-        now(s, "the move goes on from 0", 'r', 1, 1);
+        Prints.now(s, "the move goes on from 0", 'r', 1, 1);
         int ticks = 1;
         while (s.state() != 'd' && ticks < 100) {
             s.pass(1);
@@ -443,19 +413,19 @@ public final class MachineTest {
         Check.same("a stroke of the second layer", s.next(), 5);
         s.pass(4);
         Check.same("cut", s.cut(), 'r');
-        now(s, "cut", 'i', 5, 0);
+        Prints.now(s, "cut", 'i', 5, 0);
         Check.same("nothing is done", s.pass(10), 0);
         Check.same("resume", s.resume(), 2);
-        now(s, "resumed", 'r', 2, 0);
+        Prints.now(s, "resumed", 'r', 2, 0);
         Check.same("the target is 0", s.setTarget(200), 0);
         Check.same("the z again", s.pass(1), 1);
         Check.same("the pause again", s.pass(1), 1);
-        now(s, "paused again", 'p', 4, 0);
-        s = bar(3);
+        Prints.now(s, "paused again", 'p', 4, 0);
+        s = Prints.bar(3);
         s.print();
         Check.same("cut at once", s.cut(), 'r');
         Check.same("resume with the first command", s.resume(), 0);
-        now(s, "resumed", 'r', 0, 0);
+        Prints.now(s, "resumed", 'r', 0, 0);
         s = paused();
         s.goOn();
         s.pass(200);
@@ -465,7 +435,7 @@ public final class MachineTest {
     }
 
     private static void cutInStates() {
-        SliceWright s = bar(3);
+        SliceWright s = Prints.bar(3);
         Check.same("cut in i", s.cut(), 'i');
         Check.refuses("resume in i", STATE, s::resume);
         s = waiting();
@@ -480,7 +450,7 @@ public final class MachineTest {
         s = failed();
         Check.same("cut in f", s.cut(), 'f');
         Check.same("resume behind f", s.resume(), 0);
-        s = bar(3);
+        s = Prints.bar(3);
         s.fail();
         Check.same("cut in f behind i", s.cut(), 'f');
         Check.refuses("resume behind f behind i", STATE, s::resume);
@@ -503,14 +473,14 @@ public final class MachineTest {
     private static void cutBehindTheEnd() {
         SliceWright s = done();
         Check.same("cut in d", s.cut(), 'd');
-        now(s, "cut in d", 'i', 2, 0);
+        Prints.now(s, "cut in d", 'i', 2, 0);
         Check.refuses("nothing was cut", STATE, s::resume);
         Check.same("what was laid stays", s.laidInAll(), 20L);
         s.print();
         s.cut();
         s.resume();
         warmUp(s);
-        now(s, "done behind a cut", 'd', 2, 0);
+        Prints.now(s, "done behind a cut", 'd', 2, 0);
         s.cut();
         Check.same("only a plan and a print end what was cut", s.resume(), 0);
     }
@@ -529,7 +499,7 @@ public final class MachineTest {
         s.plan();
         s.setThickness(0, 1);
         s.box(0, 0, 0, 3, 3, 3, false);
-        warm(s);
+        Prints.warm(s);
         s.pass(8);
         Check.same("nothing ahead of the end", s.laid(0, 0, 0), 0);
         Check.same("nothing at all", s.laidInAll(), 0L);
@@ -553,7 +523,7 @@ public final class MachineTest {
         SliceWright s = new SliceWright();
         s.box(0, 0, 0, 3, 2, 1, true);
         s.plan();
-        warm(s);
+        Prints.warm(s);
         s.pass(20);
         Check.same("one stroke is laid", s.laidInAll(), 30L);
         Check.same("under way", s.next(), 3);

@@ -23,6 +23,7 @@ public final class MotionLimitsTest {
         layersEndADirection();
         pausesEndADirection();
         reachEndsADirection();
+        nothingBehindTheLast();
         speedWhenItWaits();
         speedWhenItFails();
         speedWhenItIsCut();
@@ -44,15 +45,7 @@ public final class MotionLimitsTest {
         s.setTarget(200);
         s.pass(100);
         s.print();
-        speeds(s, "the first z", 0);
-    }
-
-    /** The speeds of ticks that go on in one command, which only the last of them ends. */
-    private static void speeds(SliceWright s, String what, int... speeds) {
-        for (int tick = 0; tick < speeds.length; tick++) {
-            Check.same(what + ": over in tick " + tick, s.pass(1), tick == speeds.length - 1 ? 1 : 0);
-            Check.same(what + ": speed in tick " + tick, s.speed(), speeds[tick]);
-        }
+        Prints.speeds(s, "the first z", 0);
     }
 
     private static void lengthByTheGreaterDistance() {
@@ -64,7 +57,7 @@ public final class MotionLimitsTest {
             String place = way[0] + "," + way[1];
             SliceWright s = rows(way[0], way[1], 0, 1, 1);
             warm(s, "z0 g" + place + " d" + place + "=10");
-            speeds(s, "a way to " + place, Math.max(way[0], way[1]) == 1 ? of10 : of20);
+            Prints.speeds(s, "a way to " + place, Math.max(way[0], way[1]) == 1 ? of10 : of20);
             Check.same("then it draws", s.next(), 2);
         }
     }
@@ -77,7 +70,7 @@ public final class MotionLimitsTest {
             String place = way[0] + "," + way[1];
             SliceWright s = rows(way[0], way[1], 0, 1, 1);
             warm(s, "z0 g" + place + " d" + place + "=10");
-            speeds(s, "a way to " + place, of110);
+            Prints.speeds(s, "a way to " + place, of110);
         }
     }
 
@@ -85,7 +78,7 @@ public final class MotionLimitsTest {
         Check.about("A move of the length 0, and each other command, takes one tick; a speed is 0 behind it.");
         SliceWright s = rows(0, 0, 0, 1, 1);
         warm(s, "z0 d0,0=10");
-        speeds(s, "a stroke of one cell", 0);
+        Prints.speeds(s, "a stroke of one cell", 0);
         Check.same("done", s.state(), 'd');
         Check.same("two ticks of it", s.time(), 102L);
         Check.same("laid", s.laid(0, 0, 0), 10);
@@ -97,12 +90,12 @@ public final class MotionLimitsTest {
         s.set('r', 0);
         s.setPause(0, true);
         warm(s, "z0 p r g1,0 u d1,0=10");
-        speeds(s, "a 'p'", 0);
+        Prints.speeds(s, "a 'p'", 0);
         Check.same("it pauses", s.goOn(), 4);
-        speeds(s, "an 'r'", 0);
-        speeds(s, "a 'g'", 1, 2, 3, 2, 1, 0);
-        speeds(s, "a 'u'", 0);
-        speeds(s, "a 'd' of one cell", 0);
+        Prints.speeds(s, "an 'r'", 0);
+        Prints.speeds(s, "a 'g'", 1, 2, 3, 2, 1, 0);
+        Prints.speeds(s, "a 'u'", 0);
+        Prints.speeds(s, "a 'd' of one cell", 0);
         Check.same("ticks", s.time(), 111L);
     }
 
@@ -147,16 +140,16 @@ public final class MotionLimitsTest {
         Check.about("at most what is left of the length");
         SliceWright s = rows(0, 0, 0, 3, 1, 4, 0, 0, 1, 1);
         warm(s, "z0 d2,0=30 g4,0 d4,0=10");
-        speeds(s, "a stroke of 20 that goes on", 1, 2, 3, 4, 4, 4, 2);
+        Prints.speeds(s, "a stroke of 20 that goes on", 1, 2, 3, 4, 4, 4, 2);
         Check.same("the next command", s.next(), 2);
-        speeds(s, "a way of 20 from 2 to one cell", 3, 4, 4, 3, 3, 2, 0);
+        Prints.speeds(s, "a way of 20 from 2 to one cell", 3, 4, 4, 3, 3, 2, 0);
     }
 
     private static void endsWithOne() {
         Check.about("and 1 otherwise");
         SliceWright s = rows(0, 0, 0, 5, 1);
         warm(s, "z0 d4,0=50");
-        speeds(s, "a stroke of 40", 1, 2, 3, 4, 4, 4, 4, 4, 4, 4, 3, 2, 0);
+        Prints.speeds(s, "a stroke of 40", 1, 2, 3, 4, 4, 4, 4, 4, 4, 4, 3, 2, 0);
         Check.same("the speed of the last tick was 1, and does not go on", s.speed(), 0);
     }
 
@@ -164,14 +157,14 @@ public final class MotionLimitsTest {
         Check.about("the last speed of a move is the lesser one of its greatest speed and that of the next command");
         SliceWright s = rows(4, 0, 0, 2, 1);
         warm(s, "z0 g4,0 d5,0=20");
-        speeds(s, "a 'g' of 40 ahead of a 'd'", 1, 2, 3, 4, 5, 6, 6, 5, 4, 4);
+        Prints.speeds(s, "a 'g' of 40 ahead of a 'd'", 1, 2, 3, 4, 5, 6, 6, 5, 4, 4);
         Check.same("4 is kept", s.speed(), 4);
-        speeds(s, "the 'd' of 10", 4, 3, 2, 0);
+        Prints.speeds(s, "the 'd' of 10", 4, 3, 2, 0);
         s = rows(0, 0, 0, 2, 1, 5, 0, 0, 1, 1);
         warm(s, "z0 d1,0=20 g5,0 d5,0=10");
-        speeds(s, "a 'd' of 10 ahead of a 'g'", 1, 2, 3, 4);
+        Prints.speeds(s, "a 'd' of 10 ahead of a 'g'", 1, 2, 3, 4);
         Check.same("4 is kept, not 8", s.speed(), 4);
-        speeds(s, "the 'g' of 40 to one cell", 5, 6, 7, 6, 5, 4, 3, 2, 1, 0);
+        Prints.speeds(s, "the 'g' of 40 to one cell", 5, 6, 7, 6, 5, 4, 3, 2, 1, 0);
     }
 
     private static final int[] WAY_OF_40 = {1, 2, 3, 4, 5, 6, 6, 5, 4, 4};
@@ -181,8 +174,8 @@ public final class MotionLimitsTest {
         Check.about("the signs of their distances in x are the same, and those in y, and not all 0");
         SliceWright s = rows(4, 0, 0, 3, 1);
         warm(s, "z0 g4,0 d6,0=30");
-        speeds(s, "a way of 40", WAY_OF_40);
-        speeds(s, "a stroke of 20", STROKE_OF_20_FROM_4);
+        Prints.speeds(s, "a way of 40", WAY_OF_40);
+        Prints.speeds(s, "a stroke of 20", STROKE_OF_20_FROM_4);
     }
 
     private static void keptBackAlongX() {
@@ -191,16 +184,16 @@ public final class MotionLimitsTest {
         warm(s, "z0 g11,0 d11,0=10 z2 g7,0 d5,0=30");
         s.pass(23);
         Check.same("the way back", s.next(), 4);
-        speeds(s, "a way of 40 back", WAY_OF_40);
-        speeds(s, "a stroke of 20 back", STROKE_OF_20_FROM_4);
+        Prints.speeds(s, "a way of 40 back", WAY_OF_40);
+        Prints.speeds(s, "a stroke of 20 back", STROKE_OF_20_FROM_4);
     }
 
     private static void keptAlongY() {
         Check.about("the signs .. in y are the same");
         SliceWright s = rows(0, 4, 1, 1, 3);
         warm(s, "z1 g0,4 d0,6=30");
-        speeds(s, "a way of 40 along y", WAY_OF_40);
-        speeds(s, "a stroke of 20 along y", STROKE_OF_20_FROM_4);
+        Prints.speeds(s, "a way of 40 along y", WAY_OF_40);
+        Prints.speeds(s, "a stroke of 20 along y", STROKE_OF_20_FROM_4);
     }
 
     private static void keptBackAlongY() {
@@ -209,44 +202,45 @@ public final class MotionLimitsTest {
         warm(s, "z1 g0,11 d0,11=10 z3 g0,7 d0,5=30");
         s.pass(23);
         Check.same("the way back", s.next(), 4);
-        speeds(s, "a way of 40 back along y", WAY_OF_40);
-        speeds(s, "a stroke of 20 back along y", STROKE_OF_20_FROM_4);
+        Prints.speeds(s, "a way of 40 back along y", WAY_OF_40);
+        Prints.speeds(s, "a stroke of 20 back along y", STROKE_OF_20_FROM_4);
     }
 
     private static void keptOverOneCell() {
         Check.about("the signs of their distances in x are the same, and those in y, and not all 0 (1 and -1)");
         SliceWright s = rows(1, 0, 0, 2, 1);
         warm(s, "z0 g1,0 d2,0=20");
-        speeds(s, "a way of 1", 1, 2, 3, 4);
-        speeds(s, "a stroke of 1", 4, 3, 2, 0);
+        Prints.speeds(s, "a way of 1", 1, 2, 3, 4);
+        Prints.speeds(s, "a stroke of 1", 4, 3, 2, 0);
         s = rows(3, 0, 0, 1, 1, 1, 0, 2, 2, 1);
         warm(s, "z0 g3,0 d3,0=10 z2 g2,0 d1,0=20");
         s.pass(12);
         Check.same("the way back", s.next(), 4);
-        speeds(s, "a way of -1", 1, 2, 3, 4);
-        speeds(s, "a stroke of -1", 4, 3, 2, 0);
+        Prints.speeds(s, "a way of -1", 1, 2, 3, 4);
+        Prints.speeds(s, "a stroke of -1", 4, 3, 2, 0);
         s = rows(0, 3, 1, 1, 1, 0, 1, 3, 1, 2);
         warm(s, "z1 g0,3 d0,3=10 z3 g0,2 d0,1=20");
         s.pass(12);
         Check.same("the way back along y", s.next(), 4);
-        speeds(s, "a way of -1 along y", 1, 2, 3, 4);
-        speeds(s, "a stroke of -1 along y", 4, 3, 2, 0);
+        Prints.speeds(s, "a way of -1 along y", 1, 2, 3, 4);
+        Prints.speeds(s, "a stroke of -1 along y", 4, 3, 2, 0);
     }
 
     private static void goAndDrawByTurns() {
-        Check.about("The speed is kept if the next command is a move in the same direction, but at most the greatest one there");
+        Check.about("The speed is kept if the next command is a move in the same direction, but at most the "
+                + "greatest one there");
         SliceWright s = rows(1, 0, 0, 2, 1, 4, 0, 0, 2, 1);
         warm(s, "z0 g1,0 d2,0=20 g4,0 d5,0=20");
-        speeds(s, "a 'g' of 10", 1, 2, 3, 4);
-        speeds(s, "a 'd' of 10", 4, 4, 2);
-        speeds(s, "a 'g' of 20", 3, 4, 5, 4, 4);
-        speeds(s, "a 'd' of 10 that ends", 4, 3, 2, 0);
+        Prints.speeds(s, "a 'g' of 10", 1, 2, 3, 4);
+        Prints.speeds(s, "a 'd' of 10", 4, 4, 2);
+        Prints.speeds(s, "a 'g' of 20", 3, 4, 5, 4, 4);
+        Prints.speeds(s, "a 'd' of 10 that ends", 4, 3, 2, 0);
         s = rows(4, 0, 0, 2, 1, 9, 0, 0, 2, 1);
         warm(s, "z0 g4,0 d5,0=20 g9,0 d10,0=20");
-        speeds(s, "a 'g' of 40", WAY_OF_40);
-        speeds(s, "a 'd' of 10", 4, 4, 2);
-        speeds(s, "a 'g' of 40 from 2", 3, 4, 5, 6, 7, 6, 5, 4);
-        speeds(s, "the last 'd' of 10", 4, 3, 2, 0);
+        Prints.speeds(s, "a 'g' of 40", WAY_OF_40);
+        Prints.speeds(s, "a 'd' of 10", 4, 4, 2);
+        Prints.speeds(s, "a 'g' of 40 from 2", 3, 4, 5, 6, 7, 6, 5, 4);
+        Prints.speeds(s, "the last 'd' of 10", 4, 3, 2, 0);
     }
 
     private static void oppositeDirection() {
@@ -255,14 +249,14 @@ public final class MotionLimitsTest {
         warm(s, "z0 g5,0 d5,0=10 z2 g6,0 d2,0=50");
         s.pass(16);
         Check.same("the way to the last cell", s.next(), 4);
-        speeds(s, "a way of 10 against the stroke", 1, 2, 3, 2, 1, 0);
+        Prints.speeds(s, "a way of 10 against the stroke", 1, 2, 3, 2, 1, 0);
         s.pass(1);
         Check.same("the stroke begins with 1", s.speed(), 1);
         s = rows(0, 5, 1, 1, 1, 0, 2, 3, 1, 5);
         warm(s, "z1 g0,5 d0,5=10 z3 g0,6 d0,2=50");
         s.pass(16);
         Check.same("the way to the last cell, along y", s.next(), 4);
-        speeds(s, "a way of 10 against the stroke, along y", 1, 2, 3, 2, 1, 0);
+        Prints.speeds(s, "a way of 10 against the stroke, along y", 1, 2, 3, 2, 1, 0);
         s.pass(1);
         Check.same("the stroke along y begins with 1", s.speed(), 1);
     }
@@ -271,40 +265,40 @@ public final class MotionLimitsTest {
         Check.about("the signs of their distances in x are the same, and those in y");
         SliceWright s = rows(3, 0, 1, 1, 3);
         warm(s, "z1 g3,0 d3,2=30");
-        speeds(s, "a way along x ahead of a stroke along y", 1, 2, 3, 4, 5, 5, 4, 3, 2, 0);
-        speeds(s, "the stroke along y", 1, 2, 3, 4, 4, 3, 2, 0);
+        Prints.speeds(s, "a way along x ahead of a stroke along y", 1, 2, 3, 4, 5, 5, 4, 3, 2, 0);
+        Prints.speeds(s, "the stroke along y", 1, 2, 3, 4, 4, 3, 2, 0);
         s = rows(0, 3, 0, 3, 1);
         warm(s, "z0 g0,3 d2,3=30");
-        speeds(s, "a way along y ahead of a stroke along x", 1, 2, 3, 4, 5, 5, 4, 3, 2, 0);
-        speeds(s, "the stroke along x", 1, 2, 3, 4, 4, 3, 2, 0);
+        Prints.speeds(s, "a way along y ahead of a stroke along x", 1, 2, 3, 4, 5, 5, 4, 3, 2, 0);
+        Prints.speeds(s, "the stroke along x", 1, 2, 3, 4, 4, 3, 2, 0);
     }
 
     private static void slantingDirection() {
         Check.about("the signs of their distances in x are the same, and those in y");
         SliceWright s = rows(3, 1, 0, 3, 1);
         warm(s, "z0 g3,1 d5,1=30");
-        speeds(s, "a slanting way ahead of a stroke along x", 1, 2, 3, 4, 5, 5, 4, 3, 2, 0);
+        Prints.speeds(s, "a slanting way ahead of a stroke along x", 1, 2, 3, 4, 5, 5, 4, 3, 2, 0);
         s = rows(1, 3, 1, 1, 3);
         warm(s, "z1 g1,3 d1,5=30");
-        speeds(s, "a slanting way ahead of a stroke along y", 1, 2, 3, 4, 5, 5, 4, 3, 2, 0);
+        Prints.speeds(s, "a slanting way ahead of a stroke along y", 1, 2, 3, 4, 5, 5, 4, 3, 2, 0);
         s = rows(0, 0, 0, 3, 1, 3, 1, 0, 3, 1);
         warm(s, "z0 d2,0=30 g3,1 d5,1=30");
-        speeds(s, "a stroke along x ahead of a slanting way", 1, 2, 3, 4, 4, 3, 2, 0);
+        Prints.speeds(s, "a stroke along x ahead of a slanting way", 1, 2, 3, 4, 4, 3, 2, 0);
     }
 
     private static void layersEndADirection() {
         Check.about("if that is a move in the same direction .. and 1 otherwise ('z' is no move)");
         SliceWright s = rows(0, 0, 0, 3, 1, 3, 0, 2, 3, 1);
         warm(s, "z0 d2,0=30 z2 g3,0 d5,0=30");
-        speeds(s, "a stroke of 20 ahead of a 'z'", 1, 2, 3, 4, 4, 3, 2, 0);
-        speeds(s, "the 'z'", 0);
-        speeds(s, "a way of 10 from 0", 1, 2, 3, 4);
-        speeds(s, "a stroke of 20", STROKE_OF_20_FROM_4);
+        Prints.speeds(s, "a stroke of 20 ahead of a 'z'", 1, 2, 3, 4, 4, 3, 2, 0);
+        Prints.speeds(s, "the 'z'", 0);
+        Prints.speeds(s, "a way of 10 from 0", 1, 2, 3, 4);
+        Prints.speeds(s, "a stroke of 20", STROKE_OF_20_FROM_4);
         s = rows(0, 0, 0, 3, 1, 2, 0, 2, 3, 1);
         warm(s, "z0 d2,0=30 z2 d4,0=30");
-        speeds(s, "a stroke of 20 ahead of a 'z'", 1, 2, 3, 4, 4, 3, 2, 0);
-        speeds(s, "the 'z'", 0);
-        speeds(s, "a stroke of 20 from 0", 1, 2, 3, 4, 4, 3, 2, 0);
+        Prints.speeds(s, "a stroke of 20 ahead of a 'z'", 1, 2, 3, 4, 4, 3, 2, 0);
+        Prints.speeds(s, "the 'z'", 0);
+        Prints.speeds(s, "a stroke of 20 from 0", 1, 2, 3, 4, 4, 3, 2, 0);
     }
 
     private static void pausesEndADirection() {
@@ -312,14 +306,14 @@ public final class MotionLimitsTest {
         SliceWright s = rows(0, 0, 0, 3, 1, 2, 0, 2, 3, 1);
         s.setPause(2, true);
         warm(s, "z0 d2,0=30 z2 p d4,0=30");
-        speeds(s, "a stroke of 20", 1, 2, 3, 4, 4, 3, 2, 0);
-        speeds(s, "the 'z'", 0);
-        speeds(s, "the 'p'", 0);
+        Prints.speeds(s, "a stroke of 20", 1, 2, 3, 4, 4, 3, 2, 0);
+        Prints.speeds(s, "the 'z'", 0);
+        Prints.speeds(s, "the 'p'", 0);
         s.pass(5);
         Check.same("the speed in a pause", s.speed(), 0);
         s.goOn();
         Check.same("the speed behind it", s.speed(), 0);
-        speeds(s, "a stroke of 20 from 0", 1, 2, 3, 4, 4, 3, 2, 0);
+        Prints.speeds(s, "a stroke of 20 from 0", 1, 2, 3, 4, 4, 3, 2, 0);
     }
 
     private static void reachEndsADirection() {
@@ -327,11 +321,28 @@ public final class MotionLimitsTest {
         SliceWright s = rows(0, 0, 0, 3, 1, 4, 0, 0, 3, 1);
         s.set('r', 1);
         warm(s, "z0 d2,0=30 r g4,0 u d6,0=30");
-        speeds(s, "a stroke of 20 ahead of an 'r'", 1, 2, 3, 4, 4, 3, 2, 0);
-        speeds(s, "the 'r'", 0);
-        speeds(s, "a way of 20 ahead of a 'u'", 1, 2, 3, 4, 4, 3, 2, 0);
-        speeds(s, "the 'u'", 0);
-        speeds(s, "a stroke of 20 from 0", 1, 2, 3, 4, 4, 3, 2, 0);
+        Prints.speeds(s, "a stroke of 20 ahead of an 'r'", 1, 2, 3, 4, 4, 3, 2, 0);
+        Prints.speeds(s, "the 'r'", 0);
+        Prints.speeds(s, "a way of 20 ahead of a 'u'", 1, 2, 3, 4, 4, 3, 2, 0);
+        Prints.speeds(s, "the 'u'", 0);
+        Prints.speeds(s, "a stroke of 20 from 0", 1, 2, 3, 4, 4, 3, 2, 0);
+    }
+
+    /** More commands were planned before, so that there was a move where there is none any more. */
+    private static void nothingBehindTheLast() {
+        Check.about("that of the next command if that is a move in the same direction .. and 1 otherwise "
+                + "(there is no next one)");
+        SliceWright s = rows(0, 0, 0, 12, 12);
+        s.plan();
+        Check.same("a move behind what will be the last one", s.commandAt(6), 'g');
+        s.box(0, 0, 0, 12, 12, 1, false);
+        s.box(3, 0, 0, 1, 1, 1, true);
+        s.box(1, 0, 2, 2, 1, 1, true);
+        warm(s, "z0 g3,0 d3,0=10 z2 g2,0 d1,0=20");
+        s.pass(12);
+        Prints.speeds(s, "a way of -1", 1, 2, 3, 4);
+        Prints.speeds(s, "the last stroke, of -1", 4, 3, 2, 0);
+        Check.same("done", s.state(), 'd');
     }
 
     private static void speedWhenItWaits() {
@@ -340,7 +351,7 @@ public final class MotionLimitsTest {
         s.plan();
         s.print();
         s.pass(1);
-        speeds(s, "a way of 30 that goes on", 1, 2, 3, 4, 5, 6, 5, 4);
+        Prints.speeds(s, "a way of 30 that goes on", 1, 2, 3, 4, 5, 6, 5, 4);
         Check.same("it is too cold for the stroke", s.pass(1), 0);
         Check.same("it waits", s.state(), 'w');
         Check.same("the speed", s.speed(), 0);
@@ -350,11 +361,12 @@ public final class MotionLimitsTest {
         s.pass(1);
         Check.same("it is warm", s.temperature(), 191);
         Check.same("the speed from 0", s.speed(), 1);
-        speeds(s, "the rest of the stroke", 2, 3, 4, 4, 3, 2, 0);
+        Prints.speeds(s, "the rest of the stroke", 2, 3, 4, 4, 3, 2, 0);
     }
 
     private static void speedWhenItFails() {
-        Check.about("the speed 0 at once, and nothing is done until it is mended; a move goes on from the speed 0 then");
+        Check.about("the speed 0 at once, and nothing is done until it is mended; a move goes on from the "
+                + "speed 0 then");
         SliceWright s = rows(11, 0, 0, 1, 1);
         warm(s, "z0 g11,0 d11,0=10");
         s.pass(10);
@@ -365,7 +377,7 @@ public final class MotionLimitsTest {
         Check.same("the speed behind it", s.speed(), 0);
         s.mend();
         Check.same("the speed when it is mended", s.speed(), 0);
-        speeds(s, "58 are left", 1, 2, 3, 4, 5, 6, 7, 7, 6, 5, 4, 3, 2, 2, 0);
+        Prints.speeds(s, "58 are left", 1, 2, 3, 4, 5, 6, 7, 7, 6, 5, 4, 3, 2, 2, 0);
     }
 
     private static void speedWhenItIsCut() {
@@ -379,7 +391,7 @@ public final class MotionLimitsTest {
         Check.same("the speed behind it", s.speed(), 0);
         s.resume();
         Check.same("the speed when it goes on", s.speed(), 0);
-        speeds(s, "the 'z' again", 0);
-        speeds(s, "the whole way again", 1, 2, 3, 4, 5, 6, 7, 8, 8, 8, 8, 8, 8, 7, 6, 6, 5, 4, 3, 2, 0);
+        Prints.speeds(s, "the 'z' again", 0);
+        Prints.speeds(s, "the whole way again", 1, 2, 3, 4, 5, 6, 7, 8, 8, 8, 8, 8, 8, 7, 6, 6, 5, 4, 3, 2, 0);
     }
 }

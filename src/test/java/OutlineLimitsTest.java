@@ -203,14 +203,15 @@ public final class OutlineLimitsTest {
         Check.same("holes over a corner", layer(1, "####", "#.##", "##.#", "####").outlinesByEdges(1), 2);
         Check.same("holes over the other corner", layer(1, "####", "##.#", "#.##", "####").outlinesByEdges(1), 2);
         Check.same("a ring that touches itself", layer(1, "###", "#.#", "##.").outlinesByEdges(1), 1);
-        Check.same("a ring that touches itself at the other corner", layer(1, "###", "#.#", ".##").outlinesByEdges(1), 1);
+        Check.same("one that touches itself elsewhere", layer(1, "###", "#.#", ".##").outlinesByEdges(1), 1);
         Check.same("a ring that touches another cell", layer(1, "###.", "#.#.", "###.", "...#").outlinesByEdges(1), 3);
     }
 
     private static void longOutline() {
         Check.about("Returns the number of all outlines of a layer");
         SliceWright s = layer(0, "############", "#..........#", "#.########.#", "#.#......#.#", "#.#.####.#.#",
-                "#.#.#..#.#.#", "#.#.#.##.#.#", "#.#.#....#.#", "#.#.######.#", "#.#........#", "#.##########", "#...........");
+                "#.#.#..#.#.#", "#.#.#.##.#.#", "#.#.#....#.#", "#.#.######.#", "#.#........#", "#.##########",
+                "#...........");
         Check.same("a row of cells in windings: outer", s.outer(0), 1);
         Check.same("its inner", s.inner(0), 0);
         Check.same("by edges", s.outlinesByEdges(0), 1);

@@ -245,7 +245,8 @@ public final class PlanLimitsTest {
     }
 
     private static void layersWithSupportsAlone() {
-        Check.about("For each layer with a stroke, there is 'z' with the layer; then 'p' if a pause was told for this layer");
+        Check.about("For each layer with a stroke, there is 'z' with the layer; then 'p' if a pause was told "
+                + "for this layer");
         SliceWright s = cells(3, 0, 2);
         s.set('s', 1);
         s.setPause(0, true);
@@ -307,7 +308,8 @@ public final class PlanLimitsTest {
     }
 
     private static void tiesAlongX() {
-        Check.about("of several, the one with the lowest number; numbered .. by the other place, then by their first cell");
+        Check.about("of several, the one with the lowest number; numbered .. by the other place, then by "
+                + "their first cell");
         plan(cells(5, 5, 0, 5, 4, 2, 4, 5, 2, 6, 5, 2, 5, 6, 2), "four as near",
                 "z0 g5,5 d5,5=10 z2 g5,4 d5,4=10 g4,5 d4,5=10 g6,5 d6,5=10 g5,6 d5,6=10");
         plan(cells(5, 0, 0, 3, 0, 2, 7, 0, 2), "two of a row",
@@ -316,7 +318,8 @@ public final class PlanLimitsTest {
     }
 
     private static void tiesAlongY() {
-        Check.about("of several, the one with the lowest number; numbered .. by the other place, then by their first cell");
+        Check.about("of several, the one with the lowest number; numbered .. by the other place, then by "
+                + "their first cell");
         plan(cells(5, 5, 1, 5, 4, 3, 4, 5, 3, 6, 5, 3, 5, 6, 3), "four as near",
                 "z1 g5,5 d5,5=10 z3 g4,5 d4,5=10 g5,4 d5,4=10 g5,6 d5,6=10 g6,5 d6,5=10");
         plan(cells(0, 5, 1, 0, 3, 3, 0, 7, 3), "two of a row",
@@ -343,7 +346,8 @@ public final class PlanLimitsTest {
     }
 
     private static void firstCellIfBothAreAsNear() {
-        Check.about("The head goes to its nearer end, to the first cell if both are as near, and then draws to its other end.");
+        Check.about("The head goes to its nearer end, to the first cell if both are as near, and then draws "
+                + "to its other end.");
         SliceWright s = cells(5, 0, 0);
         s.box(3, 2, 2, 5, 1, 1, true);
         plan(s, "both as near, along x", "z0 g5,0 d5,0=10 z2 g3,2 d7,2=50");
@@ -642,7 +646,8 @@ public final class PlanLimitsTest {
 
     /** An object answers 512 calls, so that it is made anew for each hundred commands. */
     private static void mostCommands() {
-        Check.about("there is 'z' with the layer; then 'p' ..; then, for each stroke in the order of the plan, .. 'r' .. 'g' .. 'u' .. 'd'");
+        Check.about("there is 'z' with the layer; then 'p' ..; then, for each stroke in the order of the "
+                + "plan, .. 'r' .. 'g' .. 'u' .. 'd'");
         PlainModel m = model();
         SliceWright s = made();
         int strokes = 0;

@@ -478,7 +478,8 @@ public final class RefusalsTest {
     private static void resumeStates() {
         Check.about("resume: Throws IllegalStateException if the state is not 'i'");
         inStates("rwpfd", "resume", STATE, SliceWright::resume);
-        Check.about("resume: Throws IllegalStateException if no print was cut since the last planning and the last print");
+        Check.about("resume: Throws IllegalStateException if no print was cut since the last planning and the "
+                + "last print");
         for (Situation situation : Situation.in("i")) {
             if (!situation.isCut) {
                 Check.refusesUnchanged(situation, "resume", STATE, SliceWright::resume);

@@ -41,32 +41,12 @@ public final class StatesLimitsTest {
         Check.end();
     }
 
-    private static SliceWright bar(int cells) {
-        SliceWright s = new SliceWright();
-        s.box(0, 0, 0, cells, 1, 1, true);
-        s.plan();
-        return s;
-    }
-
-    private static SliceWright warm(SliceWright s) {
-        s.setTarget(200);
-        s.pass(100);
-        s.print();
-        return s;
-    }
-
     /** One cell in each of three layers: the commands 0 'z', 1 'd', 2 'z', 3 'd', 4 'z' and 5 'd', one tick each. */
     private static SliceWright three() {
         SliceWright s = new SliceWright();
         s.box(0, 0, 0, 1, 1, 3, true);
         s.plan();
-        return warm(s);
-    }
-
-    private static void now(SliceWright s, String what, char state, int next, int speed) {
-        Check.same(what + ": state", s.state(), state);
-        Check.same(what + ": next", s.next(), next);
-        Check.same(what + ": speed", s.speed(), speed);
+        return Prints.warm(s);
     }
 
     // ---- a new object, pass, time
@@ -74,12 +54,12 @@ public final class StatesLimitsTest {
     private static void idleAtFirst() {
         Check.about("and an idle machine without commands");
         SliceWright s = new SliceWright();
-        now(s, "new", 'i', 0, 0);
+        Prints.now(s, "new", 'i', 0, 0);
         Check.same("commands", s.commands(), 0);
         Check.same("time", s.time(), 0L);
         Check.same("laid", s.laidInAll(), 0L);
         Check.same("nothing is over", s.pass(200), 0);
-        now(s, "new, behind 200 ticks", 'i', 0, 0);
+        Prints.now(s, "new, behind 200 ticks", 'i', 0, 0);
         Check.same("time", s.time(), 200L);
     }
 
@@ -104,14 +84,14 @@ public final class StatesLimitsTest {
         SliceWright s = three();
         Check.same("one tick, one command", s.pass(1), 1);
         Check.same("two ticks, two commands", s.pass(2), 2);
-        now(s, "three are over", 'r', 3, 0);
+        Prints.now(s, "three are over", 'r', 3, 0);
         Check.same("more ticks than commands", s.pass(200), 3);
-        now(s, "all are over", 'd', 6, 0);
-        s = warm(bar(2));
+        Prints.now(s, "all are over", 'd', 6, 0);
+        s = Prints.warm(Prints.bar(2));
         Check.same("both, just in time", s.pass(7), 2);
-        s = warm(bar(2));
+        s = Prints.warm(Prints.bar(2));
         Check.same("one tick less", s.pass(6), 1);
-        now(s, "the last tick is left", 'r', 1, 1);
+        Prints.now(s, "the last tick is left", 'r', 1, 1);
         Check.same("the last tick", s.pass(1), 1);
     }
 
@@ -121,7 +101,7 @@ public final class StatesLimitsTest {
         Check.same("six commands", s.pass(6), 6);
         for (int times = 0; times < 3; times++) {
             Check.same("nothing more", s.pass(200), 0);
-            now(s, "done", 'd', 6, 0);
+            Prints.now(s, "done", 'd', 6, 0);
         }
         Check.same("time goes on", s.time(), 706L);
     }
@@ -133,15 +113,15 @@ public final class StatesLimitsTest {
         s.setPause(0, true);
         s.setPause(1, true);
         s.plan();
-        warm(s);
+        Prints.warm(s);
         Check.same("up to the first 'p'", s.pass(200), 2);
-        now(s, "paused", 'p', 2, 0);
+        Prints.now(s, "paused", 'p', 2, 0);
         s.goOn();
         Check.same("up to the second one", s.pass(200), 3);
-        now(s, "paused again", 'p', 5, 0);
+        Prints.now(s, "paused again", 'p', 5, 0);
         s.goOn();
         Check.same("up to the end", s.pass(200), 1);
-        now(s, "done", 'd', 6, 0);
+        Prints.now(s, "done", 'd', 6, 0);
     }
 
     private static void passWhenNothingIsDone() {
@@ -151,7 +131,7 @@ public final class StatesLimitsTest {
             int next = s.next();
             long laid = s.laidInAll();
             Check.same(situation + ": nothing is over", s.pass(200), 0);
-            now(s, situation + "", situation.state, next, 0);
+            Prints.now(s, situation + "", situation.state, next, 0);
             Check.same(situation + ": nothing is laid", s.laidInAll(), laid);
         }
     }
@@ -184,7 +164,7 @@ public final class StatesLimitsTest {
                 SliceWright s = situation.made();
                 int temperature = s.temperature();
                 Check.same(situation + ": commands", s.print(), s.commands());
-                now(s, situation + ", printed", 'r', 0, 0);
+                Prints.now(s, situation + ", printed", 'r', 0, 0);
                 Check.same(situation + ": laid", s.laidInAll(), 0L);
                 Check.same(situation + ": temperature", s.temperature(), temperature);
                 s.cut();
@@ -213,7 +193,7 @@ public final class StatesLimitsTest {
 
     private static void printOfTheLeast() {
         Check.about("Returns the number of commands.");
-        SliceWright s = bar(1);
+        SliceWright s = Prints.bar(1);
         Check.same("two commands", s.print(), 2);
         s = new SliceWright();
         s.plan();
@@ -225,10 +205,10 @@ public final class StatesLimitsTest {
         Check.about("Returns the number, as great as that of commands if all are done.");
         SliceWright s = three();
         for (int tick = 0; tick < 6; tick++) {
-            now(s, "ahead of the tick " + tick, 'r', tick, 0);
+            Prints.now(s, "ahead of the tick " + tick, 'r', tick, 0);
             Check.same("the tick " + tick, s.pass(1), 1);
         }
-        now(s, "behind the last tick", 'd', 6, 0);
+        Prints.now(s, "behind the last tick", 'd', 6, 0);
         Check.same("commands", s.commands(), 6);
     }
 
@@ -239,17 +219,17 @@ public final class StatesLimitsTest {
         s.box(0, 0, 0, 2, 1, 2, true);
         s.setPause(1, true);
         s.plan();
-        return warm(s);
+        return Prints.warm(s);
     }
 
     private static void pausedInItsTick() {
         Check.about("'p' it is paused, by a 'p' that was done");
         SliceWright s = withPause();
         Check.same("up to the 'p'", s.pass(8), 3);
-        now(s, "ahead of the 'p'", 'r', 3, 0);
+        Prints.now(s, "ahead of the 'p'", 'r', 3, 0);
         Check.same("it is a 'p'", s.commandAt(3), 'p');
         Check.same("its tick", s.pass(1), 1);
-        now(s, "behind it", 'p', 4, 0);
+        Prints.now(s, "behind it", 'p', 4, 0);
     }
 
     private static void goOnCountsWhatIsLeft() {
@@ -258,21 +238,21 @@ public final class StatesLimitsTest {
         s.pass(9);
         Check.same("commands", s.commands(), 7);
         Check.same("left", s.goOn(), 3);
-        now(s, "gone on", 'r', 4, 0);
+        Prints.now(s, "gone on", 'r', 4, 0);
         Check.same("the rest", s.pass(200), 3);
-        now(s, "done", 'd', 7, 0);
+        Prints.now(s, "done", 'd', 7, 0);
     }
 
     private static void goOnBehindTheOnlyPauses() {
         Check.about("Returns the number of commands that are left. (the fewest)");
-        SliceWright s = bar(1);
+        SliceWright s = Prints.bar(1);
         s.setPause(0, true);
         s.plan();
-        warm(s);
+        Prints.warm(s);
         s.pass(2);
         Check.same("one is left", s.goOn(), 1);
         Check.same("it", s.pass(1), 1);
-        now(s, "done", 'd', 3, 0);
+        Prints.now(s, "done", 'd', 3, 0);
     }
 
     // ---- failures
@@ -283,7 +263,7 @@ public final class StatesLimitsTest {
             SliceWright s = situation.made();
             int next = s.next();
             Check.same(situation + ": the state before", s.fail(), situation.state);
-            now(s, situation + ", failed", 'f', next, 0);
+            Prints.now(s, situation + ", failed", 'f', next, 0);
         }
     }
 
@@ -295,7 +275,7 @@ public final class StatesLimitsTest {
             s.setTarget(200);
             s.fail();
             Check.same(situation + ": nothing is over", s.pass(200), 0);
-            now(s, situation + ", failed", 'f', next, 0);
+            Prints.now(s, situation + ", failed", 'f', next, 0);
         }
     }
 
@@ -308,7 +288,7 @@ public final class StatesLimitsTest {
                 s.fail();
                 s.pass(3);
                 Check.same(situation + ": mended", s.mend(), situation.state);
-                now(s, situation + ", mended", situation.state, next, 0);
+                Prints.now(s, situation + ", mended", situation.state, next, 0);
             }
         }
         SliceWright s = withPause();
@@ -322,9 +302,9 @@ public final class StatesLimitsTest {
 
     private static void mendedMoveGoesOn() {
         Check.about("a move goes on from the speed 0 then");
-        SliceWright s = warm(bar(3));
+        SliceWright s = Prints.warm(Prints.bar(3));
         s.pass(4);
-        now(s, "6 of 20", 'r', 1, 3);
+        Prints.now(s, "6 of 20", 'r', 1, 3);
         s.fail();
         s.mend();
         s.setTarget(200);
@@ -346,7 +326,7 @@ public final class StatesLimitsTest {
             long laid = s.laidInAll();
             int temperature = s.temperature();
             Check.same(situation + ": the state before", s.cut(), situation.state);
-            now(s, situation + ", cut", 'i', next, 0);
+            Prints.now(s, situation + ", cut", 'i', next, 0);
             Check.same(situation + ": laid", s.laidInAll(), laid);
             Check.same(situation + ": temperature", s.temperature(), temperature);
             Check.refuses(situation + ": not failed any more", IllegalStateException.class, s::mend);
@@ -412,11 +392,11 @@ public final class StatesLimitsTest {
         SliceWright s = three();
         s.cut();
         Check.same("ahead of the first tick", s.resume(), 0);
-        now(s, "gone on", 'r', 0, 0);
+        Prints.now(s, "gone on", 'r', 0, 0);
         s.pass(1);
         s.cut();
         Check.same("behind the first 'z'", s.resume(), 0);
-        s = bar(3);
+        s = Prints.bar(3);
         s.setPause(0, true);
         s.plan();
         s.print();
@@ -439,18 +419,18 @@ public final class StatesLimitsTest {
             Check.same("next behind " + ticks, s.next(), ticks);
             s.cut();
             Check.same("behind " + ticks + " ticks", s.resume(), due[ticks]);
-            now(s, "behind " + ticks + " ticks", 'r', due[ticks], 0);
+            Prints.now(s, "behind " + ticks + " ticks", 'r', due[ticks], 0);
             s.setTarget(200);
             Check.same("the rest", s.pass(200), 6 - due[ticks]);
-            now(s, "the rest", 'd', 6, 0);
+            Prints.now(s, "the rest", 'd', 6, 0);
         }
     }
 
     private static void resumeWithTheLastLayer() {
         Check.about("it begins anew with the kept 'z'");
-        SliceWright s = warm(bar(12));
+        SliceWright s = Prints.warm(Prints.bar(12));
         s.pass(31);
-        now(s, "the last tick is left", 'r', 1, 2);
+        Prints.now(s, "the last tick is left", 'r', 1, 2);
         s.cut();
         Check.same("the last 'z' is the first", s.resume(), 0);
         s = three();
@@ -486,7 +466,8 @@ public final class StatesLimitsTest {
     }
 
     private static void keptStaysBehindAResume() {
-        Check.about("it begins anew with the kept 'z', or with the first command if none was kept since the print began");
+        Check.about("it begins anew with the kept 'z', or with the first command if none was kept since the "
+                + "print began");
         SliceWright s = three();
         s.pass(3);
         s.cut();
@@ -507,7 +488,7 @@ public final class StatesLimitsTest {
         s.set('r', 22);
         s.plan();
         Check.same("the plan", PlanTest.text(s), "z0 d3,0=40 z2 g11,0 d11,0=10");
-        warm(s);
+        Prints.warm(s);
         s.pass(12);
         Check.same("the stroke of 30 takes eleven ticks", s.next(), 2);
         s.pass(1);
@@ -519,7 +500,7 @@ public final class StatesLimitsTest {
         Check.same("the 'z' takes a tick", ticksOfOne(s), 1);
         Check.same("the way is as long as it was", ticksOfOne(s), way);
         Check.same("the stroke of one cell", ticksOfOne(s), 1);
-        now(s, "done", 'd', 5, 0);
+        Prints.now(s, "done", 'd', 5, 0);
         Check.same("laid", s.laidInAll(), 50L);
     }
 
@@ -574,7 +555,7 @@ public final class StatesLimitsTest {
         String what = "layer " + z + ", from " + first + " to " + last + ", back " + isBack;
         int end = isBack ? first : last;
         Check.same(what + ": the end", s.numberAt(commands - 1, isAlongX ? 'x' : 'y'), end);
-        warm(s);
+        Prints.warm(s);
         s.pass(200);
         Check.same(what + ": done", s.state(), 'd');
         for (int place = 0; place < 12; place++) {
@@ -603,9 +584,9 @@ public final class StatesLimitsTest {
 
     private static void layAtTheEnd() {
         Check.about("When a 'd' is over");
-        SliceWright s = warm(bar(3));
+        SliceWright s = Prints.warm(Prints.bar(3));
         s.pass(8);
-        now(s, "the last tick is left", 'r', 1, 2);
+        Prints.now(s, "the last tick is left", 'r', 1, 2);
         Check.same("nothing in all", s.laidInAll(), 0L);
         Check.same("nothing in the first cell", s.laid(0, 0, 0), 0);
         s.pass(1);
@@ -622,7 +603,7 @@ public final class StatesLimitsTest {
         s.set('s', 1);
         s.setThickness(0, 2);
         s.plan();
-        warm(s);
+        Prints.warm(s);
         s.pass(200);
         Check.same("on the bed", s.laid(4, 4, 0), 20);
         Check.same("above it", s.laid(4, 4, 1), 10);
@@ -637,7 +618,7 @@ public final class StatesLimitsTest {
         s.set('k', 0);
         s.plan();
         Check.same("empty", s.kindAt(1, 1, 0), 'e');
-        warm(s);
+        Prints.warm(s);
         s.pass(200);
         Check.same("done", s.state(), 'd');
         Check.same("nothing in it", s.laid(1, 1, 0), 0);
@@ -653,7 +634,7 @@ public final class StatesLimitsTest {
             s.setThickness(11, thickness);
             s.plan();
             s.setThickness(11, 4 - thickness);
-            warm(s);
+            Prints.warm(s);
             s.setThickness(11, 1);
             s.pass(200);
             Check.same("the first cell", s.laid(0, 0, 11), 10 * thickness);
@@ -688,7 +669,7 @@ public final class StatesLimitsTest {
             s.setThickness(z, 1 + z % 3);
         }
         s.plan();
-        warm(s);
+        Prints.warm(s);
         for (int times = 0; times < 60; times++) {
             s.pass(200);
         }
