@@ -125,9 +125,11 @@ enum Probe {
             addTicks(object, text);
         }
     },
+    /** A resume that is refused stands behind a cut, so that it can't hide what an earlier refused one would do. */
     RESUMED {
         @Override
         void ask(SliceWright object, StringBuilder text) {
+            add(text, object::cut);
             add(text, object::resume);
             add(text, object::cut);
             add(text, object::resume);

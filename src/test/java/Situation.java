@@ -45,7 +45,8 @@ final class Situation {
             new Situation("cut in p", 'i', true, true, () -> cut(printing(107))),
             new Situation("cut in f", 'i', true, true, () -> cut(failed(printing(13)))),
             new Situation("cut and failed", 'f', true, true, () -> failed(cut(printing(13)))),
-            new Situation("resumed", 'r', true, true, () -> resumed(cut(goneOn()))));
+            new Situation("resumed", 'r', true, true, () -> resumed(cut(goneOn()))),
+            new Situation("resumed and done", 'd', true, true, () -> toTheEnd(resumed(cut(goneOn())))));
 
     static List<Situation> in(String states) {
         List<Situation> found = new ArrayList<>();
@@ -140,8 +141,12 @@ final class Situation {
 
     /** To the end, so that a cut behind it cuts no print. */
     private static SliceWright printedAnew(SliceWright s) {
-        s.setTarget(200);
         s.print();
+        return toTheEnd(s);
+    }
+
+    private static SliceWright toTheEnd(SliceWright s) {
+        s.setTarget(200);
         s.pass(200);
         s.goOn();
         s.pass(200);
