@@ -828,6 +828,9 @@ public final class SliceWright {
         }
 
         private boolean isEdge(int x, int y, int way, int z) {
+            if (!isWay(way)) {
+                return false;
+            }
             int right = turned(way, -1);
             return body.isSolid(x + LEFT_X[way], y + LEFT_Y[way], z)
                     && !body.isSolid(x + LEFT_X[right], y + LEFT_Y[right], z);
@@ -839,10 +842,14 @@ public final class SliceWright {
         }
 
         private static int edgeOf(int x, int y, int way) {
-            if (x < 0 || x >= CORNERS || y < 0 || y >= CORNERS) {
+            if (x < 0 || x >= CORNERS || y < 0 || y >= CORNERS || !isWay(way)) {
                 return -1;
             }
             return (y * CORNERS + x) * WAYS + way;
+        }
+
+        private static boolean isWay(int way) {
+            return way >= 0 && way < WAYS;
         }
 
         private static int cornerX(int edge) {
